@@ -101,7 +101,16 @@ public final class ImageYard {
     public int build(int yard, int tag) {
         Yard here = checkedYard(yard);
         checkTag(tag);
-        return builder.work(here, tag, text);
+        builder.start();
+        int from = 0;
+        while (from < text.size && builder.fault == 0) {
+            int end = text.find(LINE_END, from, text.size);
+            if (builder.readLine(here, text, from, end)) {
+                builder.doStep(here);
+            }
+            from = end + 1;
+        }
+        return builder.finish(here, tag);
     }
 
     public int built(int what) {
@@ -483,8 +492,7 @@ public final class ImageYard {
 
         /** How this path stands to the first signs of another one: below 0 if it is before them. */
         int order(Entry other, int otherLength) {
-            int both = Math.min(length, otherLength);
-            for (int i = 0; i < both; i++) {
+            for (int i = 0; i < length && i < otherLength; i++) {
                 if (path[i] != other.path[i]) {
                     return path[i] - other.path[i];
                 }
@@ -869,6 +877,16 @@ public final class ImageYard {
             value = new Row(MOST_VALUE_SIGNS);
         }
 
+        void setName(Row row, int from, int count) {
+            name.size = 0;
+            name.addAll(row, from, count);
+        }
+
+        void setValue(Row row, int from, int count) {
+            value.size = 0;
+            value.addAll(row, from, count);
+        }
+
         /** How the name stands to signs of a row: below 0 if it is before them. */
         int order(Row row, int from, int to) {
             for (int i = 0; i < name.size && from + i < to; i++) {
@@ -936,8 +954,7 @@ public final class ImageYard {
             }
             settings[-1 - place] = fresh;
             settingCount++;
-            fresh.name.size = 0;
-            fresh.name.addAll(row, from, to - from);
+            fresh.setName(row, from, to - from);
             return fresh;
         }
 
@@ -952,14 +969,13 @@ public final class ImageYard {
             count = row.at(at);
             at++;
             for (int i = 0; i < count && i < MOST_SETTINGS; i++) {
-                int nameEnd = at + 1 + (row.at(at) & 255);
-                int valueEnd = nameEnd + 1 + (row.at(nameEnd) & 255);
-                Setting setting = settingOf(row, at + 1, nameEnd);
-                if (setting != null) {
-                    setting.value.size = 0;
-                    setting.value.addAll(row, nameEnd + 1, valueEnd - nameEnd - 1);
-                }
-                at = valueEnd;
+                int nameSigns = row.at(at) & 255;
+                settings[i].setName(row, at + 1, nameSigns);
+                at += 1 + nameSigns;
+                int valueSigns = row.at(at) & 255;
+                settings[i].setValue(row, at + 1, valueSigns);
+                at += 1 + valueSigns;
+                settingCount++;
             }
         }
 
@@ -982,9 +998,8 @@ public final class ImageYard {
     }
 
     /**
-     * All that a yard keeps is told by its records. What changes is written there first and then
-     * learnt from there, so that a crash brings back what the same records told before it; blobs'
-     * bytes are held nowhere else.
+     * All that a yard keeps is told by its records, and blobs' bytes are held nowhere else. What is
+     * written there is learnt by the same methods that learn it from there after a crash.
      */
     private static final class Yard {
         private static final int BLOB_RECORD = 1;
@@ -1057,6 +1072,7 @@ public final class ImageYard {
             }
             records.addAll(row, from, count);
             closeRecord(start);
+            learnBlob(start + HEAD, count);
             return true;
         }
 
@@ -1072,6 +1088,7 @@ public final class ImageYard {
             records.add(tag);
             records.addLong(digest);
             closeRecord(start);
+            learnTag(tag, true, digest);
             return true;
         }
 
@@ -1082,6 +1099,7 @@ public final class ImageYard {
             }
             records.add(tag);
             closeRecord(start);
+            learnTag(tag, false, 0);
             return true;
         }
 
@@ -1097,6 +1115,7 @@ public final class ImageYard {
             records.addLong(key);
             records.addLong(layer);
             closeRecord(start);
+            learnKey(key, layer);
             return true;
         }
 
@@ -1112,7 +1131,6 @@ public final class ImageYard {
 
         private void closeRecord(int start) {
             records.add(sum(start, records.size));
-            learn(start);
         }
 
         private int sum(int start, int end) {
@@ -1380,6 +1398,7 @@ public final class ImageYard {
         private final Row made;
         private final Entry first;
         private final Entry second;
+        private int textStart;
 
         Shell() {
             made = new Row(MOST_MADE);
@@ -1430,41 +1449,47 @@ public final class ImageYard {
             return line.says(from, end, "join") ? JOIN : NONE;
         }
 
-        /** Does a command, whose word ends at its first blank: 0, or the fault. */
-        private int command(int word, Row line, int from, int to, Tree tree) {
-            if (word == NONE) {
+        /** Does a command: 0, or the fault. */
+        private int command(int word, Row line, int from, int end, Tree tree) {
+            if (!takeParts(word, line, from, end)) {
                 return WRONG_LINE;
             }
-            int start = Math.min(line.find(' ', from, to) + 1, to);
-            int end = word == MKDIR || word == RM ? to : line.find(' ', start, to);
-            int rest = Math.min(end + 1, to);
-            if (!first.takePath(line, start, end)) {
-                return WRONG_LINE;
+            boolean isDone = false;
+            switch (word) {
+                case MKDIR:
+                    isDone = makeDirectory(tree);
+                    break;
+                case RM:
+                    isDone = remove(tree);
+                    break;
+                case PUT:
+                    isDone = makeFile(tree, line, textStart, end - textStart);
+                    break;
+                case ADD:
+                    isDone = lengthen(tree, line, textStart, end - textStart);
+                    break;
+                case MOVE:
+                    isDone = rename(tree);
+                    break;
+                default:
+                    isDone = join(tree);
+                    break;
             }
-            if ((word == MOVE || word == JOIN) && !second.takePath(line, rest, to)) {
-                return WRONG_LINE;
-            }
-            if (!isDone(word, line, rest, to, tree)) {
+            if (!isDone) {
                 return NOT_DONE;
             }
             return tree.isTooGreat() ? TOO_GREAT : 0;
         }
 
-        private boolean isDone(int word, Row line, int textStart, int textEnd, Tree tree) {
-            switch (word) {
-                case MKDIR:
-                    return makeDirectory(tree);
-                case RM:
-                    return remove(tree);
-                case PUT:
-                    return makeFile(tree, line, textStart, textEnd - textStart);
-                case ADD:
-                    return lengthen(tree, line, textStart, textEnd - textStart);
-                case MOVE:
-                    return rename(tree);
-                default:
-                    return join(tree);
+        /** Takes the paths behind a command's word, and where its text begins; false if it isn't as it must be. */
+        private boolean takeParts(int word, Row line, int from, int end) {
+            int start = Math.min(line.find(' ', from, end) + 1, end);
+            int pathEnd = word == MKDIR || word == RM ? end : line.find(' ', start, end);
+            textStart = Math.min(pathEnd + 1, end);
+            if (word == NONE || !first.takePath(line, start, pathEnd)) {
+                return false;
             }
+            return word != MOVE && word != JOIN || second.takePath(line, textStart, end);
         }
 
         private boolean makeDirectory(Tree tree) {
@@ -1501,10 +1526,13 @@ public final class ImageYard {
                 return false;
             }
             if (count > 0) {
+                Entry file = tree.entries[place];
                 int begin = made.size;
-                tree.entries[place].addBytesTo(made);
+                if (file.source != null) {
+                    made.addAll(file.source, file.start, file.bytes);
+                }
                 made.addAll(row, start, count);
-                tree.entries[place].becomeFile(made, begin, made.size - begin);
+                file.becomeFile(made, begin, made.size - begin);
             }
             return true;
         }
@@ -1539,11 +1567,16 @@ public final class ImageYard {
         }
     }
 
-    /** Goes through a build file; what it says of the latest build stays until the next one. */
+    /** Goes through a build file; what it tells of the latest build stays until the next one. */
     private static final class Builder {
+        int fault;
         int faultLine;
         int steps;
         int hits;
+        private int number;
+        private int lastNumber;
+        private boolean isRun;
+        private long key;
         private final Image image;
         private final Row imageBytes;
         private final Row line;
@@ -1565,34 +1598,48 @@ public final class ImageYard {
             shell = new Shell();
         }
 
-        int work(Yard yard, int tag, Row text) {
+        void start() {
+            fault = 0;
             faultLine = NONE;
             steps = 0;
             hits = 0;
-            int number = 0;
-            int last = NONE;
-            int from = 0;
-            while (from < text.size) {
-                int end = text.find(LINE_END, from, text.size);
-                if (end > from) {
-                    int fault = last == NONE ? begin(yard, text, from, end) : go(yard, text, from, end);
-                    if (fault != 0) {
-                        return fail(fault, number);
-                    }
-                    last = number;
-                }
-                from = end + 1;
-                number++;
-            }
-            if (last == NONE) {
-                return fail(WRONG_LINE, 0);
-            }
-            return finish(yard, tag) ? 0 : fail(NO_ROOM, last);
+            number = NONE;
+            lastNumber = NONE;
         }
 
-        private int fail(int fault, int number) {
-            faultLine = number;
-            return fault;
+        private void fail(int kind, int at) {
+            if (kind != 0) {
+                fault = kind;
+                faultLine = at;
+            }
+        }
+
+        /** Reads the next line: whether it is a step, which is to be done then. */
+        boolean readLine(Yard yard, Row text, int from, int end) {
+            number++;
+            if (end <= from) {
+                return false;
+            }
+            boolean isFirst = lastNumber == NONE;
+            lastNumber = number;
+            if (isFirst) {
+                fail(begin(yard, text, from, end), number);
+                return false;
+            }
+            int wordEnd = text.find(' ', from, end);
+            if (text.says(from, wordEnd, "ENV")) {
+                fail(set(text, wordEnd + 1, end), number);
+                return false;
+            }
+            isRun = text.says(from, wordEnd, "RUN");
+            if (!isRun && !text.says(from, wordEnd, "COPY")) {
+                fail(WRONG_LINE, number);
+            } else if (!fillIn(text, from, end) || image.isFull()) {
+                fail(TOO_GREAT, number);
+            } else {
+                key = keyOf(text, from, end);
+            }
+            return fault == 0;
         }
 
         private int begin(Yard yard, Row text, int from, int end) {
@@ -1608,36 +1655,6 @@ public final class ImageYard {
                 return NO_IMAGE;
             }
             yard.readImage(tag, image);
-            return 0;
-        }
-
-        private int go(Yard yard, Row text, int from, int end) {
-            int wordEnd = text.find(' ', from, end);
-            if (text.says(from, wordEnd, "ENV")) {
-                return set(text, wordEnd + 1, end);
-            }
-            boolean isRun = text.says(from, wordEnd, "RUN");
-            if (!isRun && !text.says(from, wordEnd, "COPY")) {
-                return WRONG_LINE;
-            }
-            if (!fillIn(text, from, end) || image.isFull()) {
-                return TOO_GREAT;
-            }
-            long key = keyOf(text, from, end);
-            int known = yard.findKey(key);
-            if (known != NONE && yard.find(yard.keyLayers[known]) != NONE) {
-                hits++;
-                image.addLayer(yard.keyLayers[known]);
-            } else {
-                int fault = workOut(yard, isRun);
-                if (fault != 0) {
-                    return fault;
-                }
-                if (!keepLayer(yard, key)) {
-                    return NO_ROOM;
-                }
-            }
-            steps++;
             return 0;
         }
 
@@ -1658,8 +1675,7 @@ public final class ImageYard {
             if (setting == null) {
                 return TOO_GREAT;
             }
-            setting.value.size = 0;
-            setting.value.addAll(text, valueStart, count);
+            setting.setValue(text, valueStart, count);
             return 0;
         }
 
@@ -1698,29 +1714,50 @@ public final class ImageYard {
             return imageBytes.digest(0, imageBytes.size);
         }
 
-        private int workOut(Yard yard, boolean isRun) {
+        /** Does the step that was read. */
+        void doStep(Yard yard) {
+            int known = yard.findKey(key);
+            if (known != NONE && yard.find(yard.keyLayers[known]) != NONE) {
+                image.addLayer(yard.keyLayers[known]);
+                steps++;
+                hits++;
+                return;
+            }
             changes.grow(yard, image, before);
             if (before.isTooGreat()) {
-                return TOO_GREAT;
+                fail(TOO_GREAT, number);
+                return;
             }
             behind.copy(before);
-            return isRun ? shell.runLine(line, behind) : shell.copyLine(line, behind);
+            fail(isRun ? shell.runLine(line, behind) : shell.copyLine(line, behind), number);
+            if (fault == 0) {
+                fail(keepLayer(yard), number);
+            }
         }
 
-        private boolean keepLayer(Yard yard, long key) {
+        private int keepLayer(Yard yard) {
             changes.write(before, behind, layerBytes);
             long digest = layerBytes.digest(0, layerBytes.size);
             if (!yard.keep(layerBytes, 0, layerBytes.size) || !yard.remember(key, digest)) {
-                return false;
+                return NO_ROOM;
             }
             image.addLayer(digest);
-            return true;
+            steps++;
+            return 0;
         }
 
-        private boolean finish(Yard yard, int tag) {
-            image.write(imageBytes);
-            return yard.keep(imageBytes, 0, imageBytes.size)
-                    && yard.tell(tag, imageBytes.digest(0, imageBytes.size));
+        /** Keeps the image, if there was no fault: 0, or the fault's kind. */
+        int finish(Yard yard, int tag) {
+            if (fault == 0 && lastNumber == NONE) {
+                fail(WRONG_LINE, 0);
+            }
+            if (fault == 0) {
+                image.write(imageBytes);
+                boolean isKept = yard.keep(imageBytes, 0, imageBytes.size)
+                        && yard.tell(tag, imageBytes.digest(0, imageBytes.size));
+                fail(isKept ? 0 : NO_ROOM, lastNumber);
+            }
+            return fault;
         }
     }
 }
