@@ -70,7 +70,7 @@ public final class ImageYard {
         shown = new Tree();
     }
 
-    public int put(int signs) {
+    public int put(int signs) throws IllegalArgumentException, UnsupportedOperationException {
         int more = 0;
         for (int shift = 0; shift < 32; shift += 8) {
             int sign = signs >>> shift & 255;
@@ -91,14 +91,14 @@ public final class ImageYard {
         return text.size;
     }
 
-    public void end(int n) {
+    public void end(int n) throws IllegalArgumentException {
         if (n < 0 || n > text.size) {
             throw new IllegalArgumentException();
         }
         text.size = n;
     }
 
-    public int build(int yard, int tag) {
+    public int build(int yard, int tag) throws IllegalArgumentException {
         Yard here = checkedYard(yard);
         checkTag(tag);
         builder.start();
@@ -113,7 +113,7 @@ public final class ImageYard {
         return builder.finish(here, tag);
     }
 
-    public int built(int what) {
+    public int built(int what) throws IllegalArgumentException {
         switch (what) {
             case 0:
                 return builder.faultLine;
@@ -126,13 +126,14 @@ public final class ImageYard {
         }
     }
 
-    public long tag(int yard, int tag) {
+    public long tag(int yard, int tag) throws IllegalArgumentException {
         Yard here = checkedYard(yard);
         checkTag(tag);
         return here.told[tag] ? here.tags[tag] : 0;
     }
 
-    public void retag(int yard, int tag, int from) {
+    public void retag(int yard, int tag, int from)
+            throws IllegalArgumentException, NoSuchElementException, UnsupportedOperationException {
         Yard here = checkedYard(yard);
         checkTag(tag);
         checkTag(from);
@@ -142,7 +143,8 @@ public final class ImageYard {
         }
     }
 
-    public void untag(int yard, int tag) {
+    public void untag(int yard, int tag)
+            throws IllegalArgumentException, NoSuchElementException, UnsupportedOperationException {
         Yard here = checkedYard(yard);
         checkTag(tag);
         checkTold(here, tag);
@@ -151,7 +153,7 @@ public final class ImageYard {
         }
     }
 
-    public int image(int yard, int tag, int what) {
+    public int image(int yard, int tag, int what) throws IllegalArgumentException, NoSuchElementException {
         Yard here = checkedYard(yard);
         checkTag(tag);
         checkTold(here, tag);
@@ -169,7 +171,8 @@ public final class ImageYard {
         }
     }
 
-    public long layer(int yard, int tag, int i) {
+    public long layer(int yard, int tag, int i)
+            throws IllegalArgumentException, NoSuchElementException, IndexOutOfBoundsException {
         Yard here = checkedYard(yard);
         checkTag(tag);
         checkTold(here, tag);
@@ -180,7 +183,8 @@ public final class ImageYard {
         return read.layers[i];
     }
 
-    public int entry(int yard, int tag, int i, int k, int what) {
+    public int entry(int yard, int tag, int i, int k, int what)
+            throws IllegalArgumentException, NoSuchElementException, IndexOutOfBoundsException {
         Yard here = checkedYard(yard);
         checkTag(tag);
         checkTold(here, tag);
@@ -204,13 +208,14 @@ public final class ImageYard {
         }
     }
 
-    public int blob(int yard, long digest) {
+    public int blob(int yard, long digest) throws IllegalArgumentException {
         Yard here = checkedYard(yard);
         int place = here.find(digest);
         return place == NONE ? NONE : here.lengths[place];
     }
 
-    public int byteOf(int yard, long digest, int k) {
+    public int byteOf(int yard, long digest, int k)
+            throws IllegalArgumentException, NoSuchElementException, IndexOutOfBoundsException {
         Yard here = checkedYard(yard);
         int place = here.find(digest);
         if (place == NONE) {
@@ -222,7 +227,7 @@ public final class ImageYard {
         return here.records.at(here.starts[place] + k);
     }
 
-    public int yard(int yard, int what) {
+    public int yard(int yard, int what) throws IllegalArgumentException {
         Yard here = checkedYard(yard);
         switch (what) {
             case 0:
@@ -238,7 +243,7 @@ public final class ImageYard {
         }
     }
 
-    public int journal(int yard, int k) {
+    public int journal(int yard, int k) throws IllegalArgumentException, IndexOutOfBoundsException {
         Yard here = checkedYard(yard);
         if (k < 0 || k >= here.records.size) {
             throw new IndexOutOfBoundsException();
@@ -246,12 +251,12 @@ public final class ImageYard {
         return here.records.at(k);
     }
 
-    public void sync(int yard) {
+    public void sync(int yard) throws IllegalArgumentException {
         Yard here = checkedYard(yard);
         here.synced = here.records.size;
     }
 
-    public int crash(int yard, int n, int spoilt) {
+    public int crash(int yard, int n, int spoilt) throws IllegalArgumentException {
         Yard here = checkedYard(yard);
         if (n < 0 || n > here.records.size - here.synced) {
             throw new IllegalArgumentException();
@@ -266,7 +271,7 @@ public final class ImageYard {
         return here.records.size;
     }
 
-    public int collect(int yard) {
+    public int collect(int yard) throws IllegalArgumentException {
         Yard here = checkedYard(yard);
         here.markTold(read);
         for (int i = 0; i < transfers.length; i++) {
@@ -278,7 +283,8 @@ public final class ImageYard {
         return here.sweep();
     }
 
-    public int send(int yard, int tag, int there) {
+    public int send(int yard, int tag, int there)
+            throws IllegalArgumentException, NoSuchElementException, IllegalStateException {
         Yard here = checkedYard(yard);
         checkTag(tag);
         checkTag(there);
@@ -292,24 +298,26 @@ public final class ImageYard {
         throw new IllegalStateException();
     }
 
-    public int deliver(int transfer) {
-        Transfer open = checkedTransfer(transfer);
-        if (!open.open || open.lost) {
+    public int deliver(int transfer) throws IllegalArgumentException, IllegalStateException {
+        Transfer latest = checkedTransfer(transfer);
+        if (!latest.open || latest.lost) {
             throw new IllegalStateException();
         }
-        open.arrive(yards[open.giver == 0 ? 0 : 1], yards[open.giver == 0 ? 1 : 0], read);
-        return open.message;
+        Yard giver = yards[latest.giver == 0 ? 0 : 1];
+        Yard taker = yards[latest.giver == 0 ? 1 : 0];
+        latest.arrive(giver, taker, read);
+        return latest.message;
     }
 
-    public void lose(int transfer, boolean lost) {
-        Transfer open = checkedTransfer(transfer);
-        if (!open.open || open.lost == lost) {
+    public void lose(int transfer, boolean lost) throws IllegalArgumentException, IllegalStateException {
+        Transfer latest = checkedTransfer(transfer);
+        if (!latest.open || latest.lost == lost) {
             throw new IllegalStateException();
         }
-        open.lost = lost;
+        latest.lost = lost;
     }
 
-    public int transfer(int transfer, int what) {
+    public int transfer(int transfer, int what) throws IllegalArgumentException {
         Transfer latest = checkedTransfer(transfer);
         switch (what) {
             case 0:
