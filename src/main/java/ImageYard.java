@@ -642,12 +642,11 @@ public final class ImageYard {
             return end;
         }
 
-        boolean isFull() {
-            return count >= entries.length;
-        }
-
-        /** A place for a path that search didn't find. */
+        /** A new entry for a path, at the place where it belongs; null if the tree is full. */
         Entry insert(int place, Entry path) {
+            if (place < 0 || place > count || count >= entries.length) {
+                return null;
+            }
             Entry fresh = entries[count];
             for (int i = count; i > place; i--) {
                 entries[i] = entries[i - 1];
@@ -861,10 +860,13 @@ public final class ImageYard {
                 }
                 return;
             }
-            if (!tree.hasHome(item) || kind == 0 && tree.isFull()) {
+            if (!tree.hasHome(item)) {
                 return;
             }
             Entry entry = kind == 0 ? tree.insert(-1 - place, item) : tree.entries[place];
+            if (entry == null) {
+                return;
+            }
             if (item.kind == FILE) {
                 if (kind == DIRECTORY) {
                     tree.cut(place + 1, tree.endOf(place));
@@ -1502,11 +1504,14 @@ public final class ImageYard {
 
         private boolean makeDirectory(Tree tree) {
             int place = tree.search(first, first.length);
-            if (place >= 0 || !tree.hasHome(first) || tree.isFull()) {
+            if (place >= 0 || !tree.hasHome(first)) {
                 return false;
             }
-            tree.insert(-1 - place, first).becomeDirectory();
-            return true;
+            Entry directory = tree.insert(-1 - place, first);
+            if (directory != null) {
+                directory.becomeDirectory();
+            }
+            return directory != null;
         }
 
         private boolean remove(Tree tree) {
@@ -1520,12 +1525,14 @@ public final class ImageYard {
 
         private boolean makeFile(Tree tree, Row row, int start, int count) {
             int place = tree.search(first, first.length);
-            if (tree.kindAt(place) == DIRECTORY || !tree.hasHome(first) || tree.isFull()) {
+            if (tree.kindAt(place) == DIRECTORY || !tree.hasHome(first)) {
                 return false;
             }
             Entry file = place >= 0 ? tree.entries[place] : tree.insert(-1 - place, first);
-            file.becomeFile(row, start, count);
-            return true;
+            if (file != null) {
+                file.becomeFile(row, start, count);
+            }
+            return file != null;
         }
 
         private boolean lengthen(Tree tree, Row row, int start, int count) {

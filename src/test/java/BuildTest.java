@@ -104,6 +104,16 @@ public final class BuildTest {
             check.build(x, START + line, 1, 1, 0, 0);
         }
         check.build(x, START + "COPY abcdefgh x\nCOPY 09az x", 0, -1, 2, 0);
+        String name = "abcdefgh";
+        String deep = name + "/" + name + "/" + name;
+        check.build(x, START + "ENV n " + name + "\nRUN mkdir $n;mkdir $n/$n;mkdir $n/$n/$n\nCOPY " + deep + "/" + name
+                + " x", 0, -1, 2, 0);
+        check.tree(x, 0, 0, name + "/ " + name + "/" + name + "/ " + deep + "/ " + deep + "/" + name + "=x");
+        check.build(x, "FROM 0\nCOPY " + deep + "/" + name + "i x", 1, 1, 0, 0);
+        check.build(x, "FROM 0\nCOPY " + deep + "/" + name + "/a x", 1, 1, 0, 0);
+        check.build(x, "FROM 0\nCOPY " + deep + "/z y\nRUN move " + deep + "/z " + deep + "/zyxwvuts", 0, -1, 2, 0);
+        check.due("the last sign of the longest path", x.entry(0, 0, 4, 34, 0), 's');
+        check.due("and none behind it", x.entry(0, 0, 4, 35, 0), -1);
         check.build(x, START + "COPY a/b x", 3, 1, 0, 0);
         check.build(x, START + "COPY a x\nCOPY a/b x", 3, 2, 1, 0);
         check.build(x, START + "RUN mkdir a\nCOPY a x", 3, 2, 1, 0);

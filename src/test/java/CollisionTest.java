@@ -10,14 +10,20 @@ public final class CollisionTest {
     static final String TEXT = "6Y8-Lmq-y3A";
     private static final long IMAGES_DIGEST = -135424793923166049L;
 
+    /** The layers of "put t ONE" and "put t OTHER" have one digest, and as many bytes. */
+    static final String ONE = "AFHCy4dv17D";
+    static final String OTHER = "M9ItB1BdRwF";
+
     public static void main(String[] args) {
         Check check = new Check();
         refused(check);
+        refusedOfOneLength(check);
         otherLayer(check);
         greatTree(check);
         noItems(check);
         refusedImage(check);
         refusedBlob(check);
+        oneKey(check);
         check.end();
     }
 
@@ -31,6 +37,19 @@ public final class CollisionTest {
         check.due("it isn't kept", x.yard(0, 0), blobs);
         check.due("nor its key", x.yard(0, 2), size);
         check.due("the first one's bytes", x.byteOf(0, LAYERS_DIGEST, 0), 3);
+    }
+
+    private static void refusedOfOneLength(Check check) {
+        ImageYard x = new ImageYard();
+        Check.build(x, 0, 1, "FROM empty\nCOPY t " + ONE);
+        Check.build(x, 1, 1, "FROM empty\nCOPY t " + OTHER);
+        check.due("one digest", x.layer(0, 1, 0), x.layer(1, 1, 0));
+        check.due("and so one image", x.tag(0, 1), x.tag(1, 1));
+        check.tree(x, 0, 1, "t=" + ONE);
+        check.tree(x, 1, 1, "t=" + OTHER);
+        check.build(x, "FROM empty\nCOPY t " + OTHER, 5, 1, 0, 0);
+        check.build(x, "FROM empty\nRUN put t " + ONE, 0, -1, 1, 0);
+        check.due("three records more of the same blobs", x.yard(0, 0), 2);
     }
 
     private static void otherLayer(Check check) {
@@ -128,5 +147,16 @@ public final class CollisionTest {
         check.due("the taker refuses the blob", x.deliver(0), 0);
         check.due("one was sent", x.transfer(0, 2), 1);
         check.due("it isn't done", x.transfer(0, 3), 0);
+    }
+
+    /** The keys of these two steps, the first of their builds, are one. */
+    private static void oneKey(Check check) {
+        ImageYard x = new ImageYard();
+        check.build(x, "FROM empty\nCOPY t 641MEzr-pVF", 0, -1, 1, 0);
+        long digest = x.tag(0, 0);
+        check.build(x, "FROM empty\nCOPY t Ltn4oTt8GQC", 0, -1, 1, 1);
+        check.due("a hit, whatever the line says", x.tag(0, 0), digest);
+        check.tree(x, 0, 0, "t=641MEzr-pVF");
+        check.due("one key", x.yard(0, 1), 1);
     }
 }

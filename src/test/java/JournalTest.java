@@ -103,6 +103,8 @@ public final class JournalTest {
         x.untag(0, 2);
         check.due("no such byte to spoil", x.crash(0, 7, 7), size + 7);
         check.due("the tag tells none", x.tag(0, 2), 0);
+        check.refuses("and has no image", Check.ELEMENT, () -> x.image(0, 2, 0));
+        check.refuses("nor has another one", Check.ELEMENT, () -> x.image(0, 1, 0));
     }
 
     private static void crashAtEachByte(Check check) {
@@ -206,6 +208,10 @@ public final class JournalTest {
         check.due("its layers are", x.yard(1, 0), 2);
         check.due("closed", x.deliver(0), 0);
         check.due("a closed one holds nothing", x.collect(1), 2);
+        Check.build(x, 1, 0, "FROM empty\nCOPY a 1");
+        x.untag(1, 0);
+        check.due("the same number anew", x.send(0, 0, 5), 0);
+        check.due("its offer isn't taken yet", x.collect(1), 2);
     }
 
     private static void crashBehindCollection(Check check) {

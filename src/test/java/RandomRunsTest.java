@@ -202,9 +202,13 @@ public final class RandomRunsTest {
 
     /** Lines with layers and images of one digest. */
     private String twin() {
-        switch (random.nextInt(4)) {
+        switch (random.nextInt(6)) {
             case 0:
                 return "RUN rm d;put t " + CollisionTest.FIRST;
+            case 3:
+                return "COPY t " + CollisionTest.ONE;
+            case 4:
+                return "COPY t " + CollisionTest.OTHER;
             case 1:
                 return "COPY t " + CollisionTest.SECOND;
             case 2:
