@@ -1558,7 +1558,7 @@ public final class ImageYard {
                 return false;
             }
             Entry file = tree.entries[place];
-            return lengthen(tree, file.source, file.start, file.bytes);
+            return file.source != null && lengthen(tree, file.source, file.start, file.bytes);
         }
 
         private boolean rename(Tree tree) {
