@@ -27,7 +27,7 @@ public final class BuildTest {
     }
 
     private static void from(Check check) {
-        ImageYard x = new ImageYard();
+        Yards x = new Yards();
         check.build(x, "", 1, 0, 0, 0);
         check.build(x, "\n\n\n", 1, 0, 0, 0);
         check.build(x, "\n\nFROM empty\n\n", 0, -1, 0, 0);
@@ -52,7 +52,7 @@ public final class BuildTest {
     }
 
     private static void lines(Check check) {
-        ImageYard x = new ImageYard();
+        Yards x = new Yards();
         String[] wrong = {" ", "COPYa b", "COPY$a b", " COPY a b", "RUNmkdir a", "run mkdir a", "mkdir a", "ENVa b",
             "$a b c", "RUN$a"};
         for (String line : wrong) {
@@ -64,7 +64,7 @@ public final class BuildTest {
     }
 
     private static void env(Check check) {
-        ImageYard x = new ImageYard();
+        Yards x = new Yards();
         String[] wrong = {"ENV", "ENV ", "ENV a", "ENV a ", "ENV  a b", "ENV a  b", "ENV a b ", "ENV a b c", "ENV A b",
             "ENV a1 b", "ENV abcdefghi b", "ENV a 1234567890123", "ENV 1 b", "ENV a_b c", "ENV  b", "ENV `a b", "ENV { b"};
         for (String line : wrong) {
@@ -83,7 +83,7 @@ public final class BuildTest {
     }
 
     private static void fill(Check check) {
-        ImageYard x = new ImageYard();
+        Yards x = new Yards();
         check.build(x, START + "ENV v $w\nENV w x\nENV abcdefgh L\nENV s ;rm\nENV p a/b\n"
                 + "COPY f $v$w.$.$vw.$v1$W-$abcdefghi$$\nRUN mkdir a;put $p 1;put $w$w 2$s $p", 0, -1, 2, 0);
         check.tree(x, 0, 0, "a/ f=$wx...$w1W-Li xx=2");
@@ -95,7 +95,7 @@ public final class BuildTest {
     }
 
     private static void copy(Check check) {
-        ImageYard x = new ImageYard();
+        Yards x = new Yards();
         check.build(x, START + "COPY a  two  words \nCOPY b\nCOPY c \nCOPY d x;y", 0, -1, 4, 0);
         check.tree(x, 0, 0, "a= two  words  b= c= d=x;y");
         String[] wrong = {"COPY", "COPY ", "COPY  a b", "COPY A b", "COPY a/ b", "COPY /a b", "COPY a//b c",
@@ -122,7 +122,7 @@ public final class BuildTest {
     }
 
     private static void runWords(Check check) {
-        ImageYard x = new ImageYard();
+        Yards x = new Yards();
         String[] wrong = {"RUN", "RUN ", "RUN  ", "RUN ;mkdir a", "RUN mkdir a;", "RUN mkdir a; ;mkdir b", "RUN mkdir",
             "RUN mkdir  a", "RUN mkdir a b", "RUN rm", "RUN rm  a", "RUN put", "RUN put  a", "RUN add", "RUN move a",
             "RUN move a  b", "RUN move a b c", "RUN join a", "RUN join", "RUN MKDIR a", "RUN copy a b", "RUN COPY a b",
@@ -138,7 +138,7 @@ public final class BuildTest {
     }
 
     private static void commands(Check check) {
-        ImageYard x = new ImageYard();
+        Yards x = new Yards();
         String[] cant = {"mkdir a/b", "rm a", "add a x", "join a a", "move a b", "put a/b/c x", "mkdir a;mkdir a",
             "put a;mkdir a", "put a;mkdir a/b", "put a;put a/b", "mkdir a;put a x", "mkdir a;add a x", "mkdir a;rm a/b",
             "put a;join a b", "put a;join b a", "put a;mkdir d;join a d", "put a;mkdir d;join d a", "put a;rm a;rm a",
@@ -155,7 +155,7 @@ public final class BuildTest {
     }
 
     private static void move(Check check) {
-        ImageYard x = new ImageYard();
+        Yards x = new Yards();
         String start = START + "RUN mkdir a;mkdir a/b;put a/b/c 1;put a/f 2;put g 3;mkdir m;mkdir m/n;mkdir a0\n";
         Check.build(x, 0, 1, start);
         String[] cant = {"move a a", "move a g", "move a a/x", "move a a/b/x", "move a x/y", "move a g/y", "move g a",
@@ -175,25 +175,25 @@ public final class BuildTest {
     }
 
     private static void lengths(Check check) {
-        ImageYard x = new ImageYard();
         String copy = "COPY a ";
-        check.build(x, START + copy + "x".repeat(193), 0, -1, 1, 0);
-        check.build(x, START + copy + "x".repeat(194), 4, 1, 0, 0);
+        check.build(new Yards(), START + copy + "x".repeat(193), 0, -1, 1, 0);
+        check.build(new Yards(), START + copy + "x".repeat(194), 4, 1, 0, 0);
+        Yards x = new Yards();
         check.build(x, START + "ENV v 123456789012\n" + copy + "x".repeat(181) + "$v", 0, -1, 1, 0);
         check.due("its bytes", x.entry(0, 0, 0, 0, 3), 193);
-        check.build(x, START + "ENV v 123456789012\n" + copy + "x".repeat(182) + "$v", 4, 2, 0, 0);
-        check.build(x, START + copy + "x".repeat(190) + "$abcdefgh", 0, -1, 1, 0);
-        check.build(x, START + "COPY A " + "x".repeat(194), 4, 1, 0, 0);
-        check.build(x, START + "RUN rm x;" + " ".repeat(192), 4, 1, 0, 0);
-        check.build(x, START + "RUN rm x;" + " ".repeat(191), 3, 1, 0, 0);
-        check.build(x, START + "RUN" + " ".repeat(198), 4, 1, 0, 0);
-        check.build(x, START + "RUN" + " ".repeat(197), 1, 1, 0, 0);
-        check.build(x, START + "COPYx " + "x".repeat(300), 1, 1, 0, 0);
-        check.build(x, START + "ENV a " + "x".repeat(300), 1, 1, 0, 0);
+        check.build(new Yards(), START + "ENV v 123456789012\n" + copy + "x".repeat(182) + "$v", 4, 2, 0, 0);
+        check.build(new Yards(), START + copy + "x".repeat(190) + "$abcdefgh", 0, -1, 1, 0);
+        check.build(new Yards(), START + "COPY A " + "x".repeat(194), 4, 1, 0, 0);
+        check.build(new Yards(), START + "RUN rm x;" + " ".repeat(192), 4, 1, 0, 0);
+        check.build(new Yards(), START + "RUN rm x;" + " ".repeat(191), 3, 1, 0, 0);
+        check.build(new Yards(), START + "RUN" + " ".repeat(198), 4, 1, 0, 0);
+        check.build(new Yards(), START + "RUN" + " ".repeat(197), 1, 1, 0, 0);
+        check.build(new Yards(), START + "COPYx " + "x".repeat(300), 1, 1, 0, 0);
+        check.build(new Yards(), START + "ENV a " + "x".repeat(300), 1, 1, 0, 0);
     }
 
     private static void greatTrees(Check check) {
-        ImageYard x = new ImageYard();
+        Yards x = new Yards();
         StringBuilder run = new StringBuilder("RUN mkdir d");
         for (int i = 0; i < 20; i++) {
             run.append(";put ").append((char) ('e' + i));
@@ -216,7 +216,7 @@ public final class BuildTest {
     }
 
     private static void greatFiles(Check check) {
-        ImageYard x = new ImageYard();
+        Yards x = new Yards();
         Check.build(x, 0, 1, START + "RUN put a " + "x".repeat(125) + ";join a a;join a a;join a a");
         check.due("a thousand bytes", x.entry(0, 1, 0, 0, 3), 1000);
         check.build(x, "FROM 1\nRUN add a y", 4, 1, 0, 0);
@@ -239,7 +239,7 @@ public final class BuildTest {
     }
 
     private static void manyLayers(Check check) {
-        ImageYard x = new ImageYard();
+        Yards x = new Yards();
         StringBuilder text = new StringBuilder("FROM empty");
         for (int i = 0; i < 12; i++) {
             text.append("\nCOPY a ").append(i);
@@ -256,7 +256,7 @@ public final class BuildTest {
     }
 
     private static void manySettings(Check check) {
-        ImageYard x = new ImageYard();
+        Yards x = new Yards();
         String six = START + "ENV a 1\nENV b 2\nENV c 3\nENV d 4\nENV e 5\nENV f 6\n";
         check.build(x, six + "ENV f 7\nENV a 8", 0, -1, 0, 0);
         check.due("its settings", x.image(0, 0, 1), 6);
@@ -268,7 +268,7 @@ public final class BuildTest {
     }
 
     private static void cache(Check check) {
-        ImageYard x = new ImageYard();
+        Yards x = new Yards();
         String text = START + "COPY a 1\nRUN put b 2\nENV v w\nCOPY c $v";
         check.build(x, text, 0, -1, 3, 0);
         check.build(x, text, 0, -1, 3, 3);
@@ -287,14 +287,14 @@ public final class BuildTest {
     }
 
     private static long tagOf(String text) {
-        ImageYard x = new ImageYard();
+        Yards x = new Yards();
         Check.build(x, 0, 5, text);
         return x.tag(0, 5);
     }
 
     /** A key is the digest of the image's bytes as it would be then and the line as it stands. */
     private static void keys(Check check) {
-        ImageYard x = new ImageYard();
+        Yards x = new Yards();
         Check.build(x, 0, 0, START + "ENV v w\nCOPY a $v");
         byte[] journal = Check.journal(x, 0);
         long key = Model.digest("M\0\1\1v\1wCOPY a $v");
@@ -309,59 +309,32 @@ public final class BuildTest {
     }
 
     private static void noRoomForBlobs(Check check) {
-        ImageYard x = new ImageYard();
-        for (int i = 0; i < 29; i++) {
-            Check.build(x, 0, 0, START + "COPY a " + i);
-        }
+        Yards x = new Yards();
+        Fill.blobs(x, 0, 0, 58);
         check.due("blobs", x.yard(0, 0), 58);
+        int keys = x.yard(0, 1);
         check.build(x, START + "COPY a x\n\n", 0, -1, 1, 0);
         check.build(x, START + "COPY a x\nCOPY a y", 5, 2, 1, 1);
         check.due("blobs", x.yard(0, 0), 60);
-        check.due("keys", x.yard(0, 1), 30);
+        check.due("keys", x.yard(0, 1), keys + 1);
         check.build(x, START + "COPY a x\nCOPY a x\n\n", 5, 2, 1, 1);
         check.build(x, START + "ENV a b\n\n", 5, 1, 0, 0);
         check.build(x, START + "RUN put a x", 0, -1, 1, 0);
-        check.due("the same layer under another key", x.yard(0, 1), 31);
+        check.due("the same layer under another key", x.yard(0, 1), keys + 2);
         check.build(x, START + "ENV a b\nRUN put a x\n\n\n", 5, 2, 1, 0);
     }
 
     private static void noRoomForKeys(Check check) {
-        ImageYard x = new ImageYard();
-        for (int i = 1; i <= 60; i++) {
-            Check.build(x, 0, 0, START + "RUN" + " ".repeat(i) + "put a");
-        }
+        Yards x = new Yards();
+        Fill.keys(x, 0, 0, 60);
         check.due("keys", x.yard(0, 1), 60);
-        check.due("blobs", x.yard(0, 0), 2);
-        check.build(x, START + "RUN put a\nCOPY a 1", 5, 2, 1, 1);
-        check.due("the layer of a step whose key has no room stays", x.yard(0, 0), 3);
+        int blobs = x.yard(0, 0);
+        check.build(x, START + "ENV k a\nCOPY k\nCOPY a 1", 5, 3, 1, 1);
+        check.due("the layer of a step whose key has no room stays", x.yard(0, 0), blobs + 1);
         check.due("keys", x.yard(0, 1), 60);
-        check.build(x, START + "RUN put a\nCOPY a 1", 5, 2, 1, 1);
-        check.due("and is not kept again", x.yard(0, 0), 3);
-        check.build(x, START + "RUN put a\nENV a b", 0, -1, 1, 1);
-    }
-
-    /** Fills the journal of yard 0 up to some bytes ahead of its end; tags 0 and 7 tell images then. */
-    static void fillJournal(ImageYard x, int left) {
-        String run = "RUN put a %s;join a a;join a a;join a a;join a a\n";
-        for (int i = 0; i < 7; i++) {
-            StringBuilder text = new StringBuilder(START);
-            for (int k = 0; k < 5; k++) {
-                text.append(String.format(run, "x".repeat(54) + (100000 + 10 * i + k)));
-            }
-            Check.build(x, 0, i % 2 == 0 ? 0 : 7, text.toString());
-        }
-        int more = 40000 - left - x.yard(0, 2);
-        int untags = 0;
-        while ((more - 7 * untags) % 15 != 0) {
-            untags++;
-        }
-        int tags = (more - 7 * untags) / 15;
-        for (int i = 0; i < tags; i++) {
-            x.retag(0, 1, i % 2 == 0 ? 0 : 7);
-            if (i < untags) {
-                x.untag(0, 1);
-            }
-        }
+        check.build(x, START + "ENV k a\nCOPY k\nCOPY a 1", 5, 3, 1, 1);
+        check.due("and is not kept again", x.yard(0, 0), blobs + 1);
+        check.build(x, START + "ENV k a\nCOPY k\nENV a b", 0, -1, 1, 1);
     }
 
     private static void noRoomInTheJournal(Check check) {
@@ -372,8 +345,8 @@ public final class BuildTest {
         int[] ends = {layer, layer + key, layer + key + image, layer + key + image + tag};
         for (int end : ends) {
             for (int left = end - 1; left <= end; left++) {
-                ImageYard x = new ImageYard();
-                fillJournal(x, left);
+                Yards x = new Yards();
+                Fill.journal(x, 0, left);
                 check.due("the journal is filled", x.yard(0, 2), 40000 - left);
                 int blobs = x.yard(0, 0);
                 int keys = x.yard(0, 1);
@@ -389,7 +362,7 @@ public final class BuildTest {
     }
 
     private static void arguments(Check check) {
-        ImageYard x = new ImageYard();
+        Yards x = new Yards();
         Check.write(x, START);
         check.refuses("build(-1, 0)", Check.ARGUMENT, () -> x.build(-1, 0));
         check.refuses("build(2, 0)", Check.ARGUMENT, () -> x.build(2, 0));

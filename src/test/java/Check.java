@@ -46,13 +46,17 @@ final class Check {
     }
 
     /** Builds a text that takes the place of the build file: the fault's kind. */
-    static int build(ImageYard x, int yard, int tag, String text) {
+    static int build(Yards x, int yard, int tag, String text) {
         write(x, text);
         return x.build(yard, tag);
     }
 
-    static void write(ImageYard x, String text) {
+    static void write(Yards x, String text) {
         x.end(0);
+        append(x, text);
+    }
+
+    static void append(Yards x, String text) {
         byte[] signs = text.getBytes(StandardCharsets.ISO_8859_1);
         for (int i = 0; i < signs.length; i += 4) {
             int four = 0;
@@ -64,7 +68,7 @@ final class Check {
     }
 
     /** A build with its fault's kind and line, and how many steps it did and of these were hits. */
-    void build(ImageYard x, String text, int fault, int line, int steps, int hits) {
+    void build(Yards x, String text, int fault, int line, int steps, int hits) {
         due("build of " + text, build(x, 0, 0, text), fault);
         due("its fault's line of " + text, x.built(0), line);
         due("its steps of " + text, x.built(1), steps);
@@ -72,7 +76,7 @@ final class Check {
     }
 
     /** A tag's tree, as path/ of a directory and path=bytes of a file, with blanks between them. */
-    static String tree(ImageYard x, int yard, int tag) {
+    static String tree(Yards x, int yard, int tag) {
         StringBuilder out = new StringBuilder();
         int count = x.image(yard, tag, 2);
         for (int i = 0; i < count; i++) {
@@ -88,12 +92,12 @@ final class Check {
         return out.toString();
     }
 
-    void tree(ImageYard x, int yard, int tag, String due) {
+    void tree(Yards x, int yard, int tag, String due) {
         String got = tree(x, yard, tag);
         holds("the tree is " + due + " (it is " + got + ")", got.equals(due));
     }
 
-    static byte[] blob(ImageYard x, int yard, long digest) {
+    static byte[] blob(Yards x, int yard, long digest) {
         byte[] bytes = new byte[x.blob(yard, digest)];
         for (int k = 0; k < bytes.length; k++) {
             bytes[k] = (byte) x.byteOf(yard, digest, k);
@@ -101,7 +105,7 @@ final class Check {
         return bytes;
     }
 
-    static byte[] journal(ImageYard x, int yard) {
+    static byte[] journal(Yards x, int yard) {
         byte[] bytes = new byte[x.yard(yard, 2)];
         for (int k = 0; k < bytes.length; k++) {
             bytes[k] = (byte) x.journal(yard, k);

@@ -28,7 +28,7 @@ public final class CollisionTest {
     }
 
     private static void refused(Check check) {
-        ImageYard x = new ImageYard();
+        Yards x = new Yards();
         Check.build(x, 0, 1, "FROM empty\nRUN mkdir d\nRUN rm d;put t " + FIRST);
         check.due("the digest", x.layer(0, 1, 1), LAYERS_DIGEST);
         int blobs = x.yard(0, 0);
@@ -40,7 +40,7 @@ public final class CollisionTest {
     }
 
     private static void refusedOfOneLength(Check check) {
-        ImageYard x = new ImageYard();
+        Yards x = new Yards();
         Check.build(x, 0, 1, "FROM empty\nCOPY t " + ONE);
         Check.build(x, 1, 1, "FROM empty\nCOPY t " + OTHER);
         check.due("one digest", x.layer(0, 1, 0), x.layer(1, 1, 0));
@@ -53,7 +53,7 @@ public final class CollisionTest {
     }
 
     private static void otherLayer(Check check) {
-        ImageYard x = new ImageYard();
+        Yards x = new Yards();
         Check.build(x, 0, 1, "FROM empty\nRUN mkdir d;put d/e\nRUN rm d;put t " + FIRST);
         Check.build(x, 1, 1, "FROM empty\nCOPY t " + SECOND);
         check.due("the digest", x.layer(1, 1, 0), LAYERS_DIGEST);
@@ -69,7 +69,7 @@ public final class CollisionTest {
 
     /** The other yard's layer doesn't remove the directory, so its files grow more and more. */
     private static void greatTree(Check check) {
-        ImageYard x = new ImageYard();
+        Yards x = new Yards();
         String rm = "\nRUN rm d;put t " + FIRST;
         check.due("one", Check.build(x, 0, 1, "FROM empty\n" + many("mkdir d", 'a') + rm), 0);
         check.due("two", Check.build(x, 0, 1, "FROM 1\n" + many("rm t;mkdir d", 'b') + rm), 0);
@@ -109,7 +109,7 @@ public final class CollisionTest {
     }
 
     private static void noItems(Check check) {
-        ImageYard x = new ImageYard();
+        Yards x = new Yards();
         Check.build(x, 0, 1, "FROM empty\nCOPY a 1\nCOPY t " + TEXT + "\nCOPY b 2");
         check.due("the layer", x.layer(0, 1, 1), IMAGES_DIGEST);
         Check.build(x, 1, 1, "FROM empty\nENV v " + VALUE);
@@ -126,7 +126,7 @@ public final class CollisionTest {
     }
 
     private static void refusedImage(Check check) {
-        ImageYard x = new ImageYard();
+        Yards x = new Yards();
         Check.build(x, 0, 1, "FROM empty\nCOPY t " + TEXT);
         check.build(x, "FROM empty\nENV v " + VALUE + "\n", 5, 1, 0, 0);
         check.due("the tag tells none", x.tag(0, 0), 0);
@@ -138,7 +138,7 @@ public final class CollisionTest {
     }
 
     private static void refusedBlob(Check check) {
-        ImageYard x = new ImageYard();
+        Yards x = new Yards();
         Check.build(x, 0, 1, "FROM empty\nCOPY t " + TEXT);
         x.send(0, 1, 0);
         check.due("WANT", x.deliver(0), 2);
@@ -151,7 +151,7 @@ public final class CollisionTest {
 
     /** The keys of these two steps, the first of their builds, are one. */
     private static void oneKey(Check check) {
-        ImageYard x = new ImageYard();
+        Yards x = new Yards();
         check.build(x, "FROM empty\nCOPY t 641MEzr-pVF", 0, -1, 1, 0);
         long digest = x.tag(0, 0);
         check.build(x, "FROM empty\nCOPY t Ltn4oTt8GQC", 0, -1, 1, 1);

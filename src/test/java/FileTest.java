@@ -10,7 +10,7 @@ public final class FileTest {
     }
 
     private static void newObject(Check check) {
-        ImageYard x = new ImageYard();
+        Yards x = new Yards();
         for (int yard = 0; yard < 2; yard++) {
             for (int what = 0; what < 4; what++) {
                 check.due("yard of a new object", x.yard(yard, what), 0);
@@ -28,12 +28,12 @@ public final class FileTest {
         check.due("built(1)", x.built(1), 0);
         check.due("built(2)", x.built(2), 0);
         check.due("put(0)", x.put(0), 0);
-        check.due("another object's file stays empty", new ImageYard().put('a'), 1);
+        check.due("another object's file stays empty", new Yards().put('a'), 1);
         check.due("and so does this one's", x.put(0), 0);
     }
 
     private static void put(Check check) {
-        ImageYard x = new ImageYard();
+        Yards x = new Yards();
         check.due("put of four", x.put('F' | 'R' << 8 | 'O' << 16 | 'M' << 24), 4);
         check.due("put with 0 between", x.put(' ' | 0 << 8 | 'e' << 16 | 0 << 24), 6);
         check.due("put of the last of four", x.put('m' << 24), 7);
@@ -46,7 +46,7 @@ public final class FileTest {
     }
 
     private static void putWrong(Check check) {
-        ImageYard x = new ImageYard();
+        Yards x = new Yards();
         int[] wrong = {1, 9, 11, 13, 31, 127, 128, 255};
         for (int sign : wrong) {
             for (int shift = 0; shift < 32; shift += 8) {
@@ -67,7 +67,7 @@ public final class FileTest {
     }
 
     private static void end(Check check) {
-        ImageYard x = new ImageYard();
+        Yards x = new Yards();
         x.end(0);
         check.refuses("end(1) of an empty file", Check.ARGUMENT, () -> x.end(1));
         Check.write(x, "FROM emptyy");

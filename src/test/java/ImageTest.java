@@ -12,14 +12,14 @@ public final class ImageTest {
         check.end();
     }
 
-    private static ImageYard built(int yard, int tag) {
-        ImageYard x = new ImageYard();
+    private static Yards built(int yard, int tag) {
+        Yards x = new Yards();
         Check.build(x, yard, tag, "FROM empty\nENV v w\nRUN mkdir d;put d/f xyz\nCOPY g");
         return x;
     }
 
     private static void tags(Check check) {
-        ImageYard x = built(1, 7);
+        Yards x = built(1, 7);
         long digest = x.tag(1, 7);
         check.holds("a tag tells a digest", digest != 0);
         check.due("the other yard's tag", x.tag(0, 7), 0);
@@ -48,9 +48,10 @@ public final class ImageTest {
     }
 
     private static void tagsWithoutRoom(Check check) {
-        ImageYard x = new ImageYard();
-        BuildTest.fillJournal(x, 14);
-        int other = x.tag(0, 1) == x.tag(0, 0) ? 7 : 0;
+        Yards x = new Yards();
+        Fill.journal(x, 0, 29);
+        x.retag(0, 1, 0);
+        int other = 7;
         check.refuses("retag without room", Check.UNSUPPORTED, () -> x.retag(0, 1, other));
         check.refuses("a tag without an image goes before", Check.ELEMENT, () -> x.retag(0, 1, 5));
         check.holds("nothing is changed", x.tag(0, 1) != x.tag(0, other));
@@ -63,8 +64,8 @@ public final class ImageTest {
         check.refuses("untag without room", Check.UNSUPPORTED, () -> x.untag(0, 7));
         check.refuses("a tag without an image goes before", Check.ELEMENT, () -> x.untag(0, 0));
         check.holds("nothing is changed", x.tag(0, 7) != 0);
-        ImageYard y = new ImageYard();
-        BuildTest.fillJournal(y, 15);
+        Yards y = new Yards();
+        Fill.journal(y, 0, 15);
         y.retag(0, 5, 0);
         check.due("room for a tag", y.yard(0, 2), 40000);
         check.due("its last byte is a sum", y.journal(0, 39999), Check.journal(y, 0)[39999] & 255);
@@ -72,7 +73,7 @@ public final class ImageTest {
     }
 
     private static void tagArguments(Check check) {
-        ImageYard x = built(0, 0);
+        Yards x = built(0, 0);
         int[][] wrong = {{-1, 0}, {2, 0}, {0, -1}, {0, 8}, {1, 8}, {Integer.MIN_VALUE, 0}, {0, Integer.MAX_VALUE}};
         for (int[] two : wrong) {
             check.refuses("tag", Check.ARGUMENT, () -> x.tag(two[0], two[1]));
@@ -86,7 +87,7 @@ public final class ImageTest {
     }
 
     private static void image(Check check) {
-        ImageYard x = built(0, 3);
+        Yards x = built(0, 3);
         check.due("layers", x.image(0, 3, 0), 2);
         check.due("settings", x.image(0, 3, 1), 1);
         check.due("entries", x.image(0, 3, 2), 3);
@@ -98,7 +99,7 @@ public final class ImageTest {
     }
 
     private static void layer(Check check) {
-        ImageYard x = built(0, 3);
+        Yards x = built(0, 3);
         check.due("layer 0", x.layer(0, 3, 0), Model.digest("\1\1d\0\0\2\3d/f\3\0xyz"));
         check.due("layer 1", x.layer(0, 3, 1), Model.digest("\2\1g\0\0"));
         check.refuses("layer 2", Check.INDEX, () -> x.layer(0, 3, 2));
@@ -107,7 +108,7 @@ public final class ImageTest {
     }
 
     private static void entry(Check check) {
-        ImageYard x = built(0, 3);
+        Yards x = built(0, 3);
         check.tree(x, 0, 3, "d/ d/f=xyz g=");
         check.due("sign 0", x.entry(0, 3, 1, 0, 0), 'd');
         check.due("sign 1", x.entry(0, 3, 1, 1, 0), '/');
@@ -136,7 +137,7 @@ public final class ImageTest {
     }
 
     private static void blob(Check check) {
-        ImageYard x = built(0, 3);
+        Yards x = built(0, 3);
         long digest = x.layer(0, 3, 0);
         byte[] due = Check.bytes(1, 1, 'd', 0, 0, 2, 3, 'd', '/', 'f', 3, 0, 'x', 'y', 'z');
         check.due("blob", x.blob(0, digest), due.length);

@@ -15,8 +15,8 @@ public final class JournalTest {
         check.end();
     }
 
-    private static ImageYard built() {
-        ImageYard x = new ImageYard();
+    private static Yards built() {
+        Yards x = new Yards();
         Check.build(x, 0, 2, "FROM empty\nCOPY a x");
         return x;
     }
@@ -26,13 +26,13 @@ public final class JournalTest {
         return head + (char) (head.chars().sum() % 256);
     }
 
-    private static void same(Check check, String what, ImageYard x, int yard, String due) {
+    private static void same(Check check, String what, Yards x, int yard, String due) {
         byte[] bytes = due.getBytes(java.nio.charset.StandardCharsets.ISO_8859_1);
         check.holds(what, Arrays.equals(Check.journal(x, yard), bytes));
     }
 
     private static void records(Check check) {
-        ImageYard x = built();
+        Yards x = built();
         String layer = "\2\1a\1\0x";
         String image = "M\1" + Model.eight(Model.digest(layer)) + "\0";
         String due = record(1, layer)
@@ -62,7 +62,7 @@ public final class JournalTest {
     }
 
     private static void arguments(Check check) {
-        ImageYard x = built();
+        Yards x = built();
         int size = x.yard(0, 2);
         int[] wrong = {-1, 2, Integer.MIN_VALUE, Integer.MAX_VALUE};
         for (int yard : wrong) {
@@ -86,7 +86,7 @@ public final class JournalTest {
     }
 
     private static void crash(Check check) {
-        ImageYard x = built();
+        Yards x = built();
         int size = x.yard(0, 2);
         long digest = x.tag(0, 2);
         check.due("all is left", x.crash(0, size, -1), size);
@@ -113,7 +113,7 @@ public final class JournalTest {
         check.due("the records' ends", size, ends[4]);
         for (int n = 0; n <= size; n++) {
             for (int spoilt = -1; spoilt <= n; spoilt++) {
-                ImageYard x = built();
+                Yards x = built();
                 int whole = spoilt >= 0 && spoilt < n ? spoilt : n;
                 int due = 0;
                 for (int end : ends) {
@@ -130,7 +130,7 @@ public final class JournalTest {
     }
 
     private static void collect(Check check) {
-        ImageYard x = built();
+        Yards x = built();
         check.due("nothing to collect", x.collect(0), 0);
         check.due("all is synced", x.yard(0, 3), x.yard(0, 2));
         Check.build(x, 0, 3, "FROM 2\nCOPY b y\nRUN put c");
@@ -157,7 +157,7 @@ public final class JournalTest {
     }
 
     private static void collectOrder(Check check) {
-        ImageYard x = new ImageYard();
+        Yards x = new Yards();
         Check.build(x, 0, 6, "FROM empty\nCOPY a 1");
         Check.build(x, 0, 7, "FROM empty\nCOPY gone");
         Check.build(x, 0, 1, "FROM empty\nCOPY b 2");
@@ -179,14 +179,14 @@ public final class JournalTest {
     }
 
     private static void collectOffers(Check check) {
-        ImageYard x = new ImageYard();
+        Yards x = new Yards();
         Check.build(x, 0, 0, "FROM empty\nCOPY a 1\nCOPY b 2");
         Check.build(x, 1, 0, "FROM empty\nCOPY a 1");
         long layer = x.layer(1, 0, 0);
         x.send(0, 0, 5);
         x.untag(1, 0);
         x.lose(0, true);
-        ImageYard y = new ImageYard();
+        Yards y = new Yards();
         Check.build(y, 1, 0, "FROM empty\nCOPY a 1");
         y.untag(1, 0);
         check.due("an offer that isn't taken holds nothing", x.collect(1), y.collect(1));
@@ -215,7 +215,7 @@ public final class JournalTest {
     }
 
     private static void crashBehindCollection(Check check) {
-        ImageYard x = built();
+        Yards x = built();
         Check.build(x, 0, 3, "FROM 2\nENV v w\nCOPY b $v");
         x.untag(0, 2);
         x.collect(0);

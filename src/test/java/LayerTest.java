@@ -19,7 +19,7 @@ public final class LayerTest {
 
     /** The bytes of the layer that commands make of the tree of START. */
     private static void layer(Check check, String commands, String due, String tree) {
-        ImageYard x = new ImageYard();
+        Yards x = new Yards();
         check.due("build of " + commands, Check.build(x, 1, 3, START + "RUN " + commands), 0);
         String got = new String(Check.blob(x, 1, x.layer(1, 3, 1)), StandardCharsets.ISO_8859_1);
         check.holds("the layer of " + commands, got.equals(due));
@@ -53,7 +53,7 @@ public final class LayerTest {
         layer(check, "rm a/b;rm a/c;mkdir a/c", "\3\3a/b\0\0\1\3a/c\0\0", "a/ a/c/ d/ d/e=3 f=4");
         layer(check, "rm d/e;put d/g", "\3\3d/e\0\0\2\3d/g\0\0", "a/ a/b=1 a/c=2 d/ d/g= f=4");
         layer(check, "rm a;mkdir a", "\4\1a\0\0", "a/ d/ d/e=3 f=4");
-        ImageYard x = new ImageYard();
+        Yards x = new Yards();
         Check.build(x, 0, 0, "FROM empty\nRUN mkdir a;mkdir a/b;put a/b/c;put a/b/d;put a/e\nRUN rm a/b;rm a/e;mkdir a/a\n"
                 + "RUN mkdir a/b;put a/b/c;put a/b/d\nRUN rm a/b/c;rm a/b/d");
         String second = new String(Check.blob(x, 0, x.layer(0, 0, 1)), StandardCharsets.ISO_8859_1);
@@ -80,7 +80,7 @@ public final class LayerTest {
     }
 
     private static void longFile(Check check) {
-        ImageYard x = new ImageYard();
+        Yards x = new Yards();
         Check.build(x, 0, 0, "FROM empty\nRUN put a " + "z".repeat(100) + ";join a a;join a a;join a a");
         byte[] layer = Check.blob(x, 0, x.layer(0, 0, 0));
         check.due("the lower byte of 800", layer[3] & 255, 800 % 256);
@@ -90,7 +90,7 @@ public final class LayerTest {
     }
 
     private static void order(Check check) {
-        ImageYard x = new ImageYard();
+        Yards x = new Yards();
         Check.build(x, 0, 0, "FROM empty\nRUN mkdir a;put ab;put a0;put a/b;put 9;put b;mkdir a/a;put a/a/z;put a/a0");
         check.tree(x, 0, 0, "9= a/ a/a/ a/a/z= a/a0= a/b= a0= ab= b=");
         String layer = new String(Check.blob(x, 0, x.layer(0, 0, 0)), StandardCharsets.ISO_8859_1);
@@ -99,7 +99,7 @@ public final class LayerTest {
     }
 
     private static void digests(Check check) {
-        ImageYard x = new ImageYard();
+        Yards x = new Yards();
         Check.build(x, 0, 0, "FROM empty");
         check.due("an image of nothing", x.tag(0, 0), Model.digest("M\0\0"));
         check.due("how many bytes it has", x.blob(0, x.tag(0, 0)), 3);

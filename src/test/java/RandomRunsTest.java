@@ -8,11 +8,12 @@ import java.util.function.LongSupplier;
 public final class RandomRunsTest {
     private static final String[] NAMES = {"a", "b", "c", "d", "a0", "ab", "e", "zz"};
     private static final int RUNS = 400;
-    private static final int CALLS = 500;
+    /** A file has fewer signs than the document allows, so that a run has calls left for more than two builds. */
+    private static final int MOST_SIGNS = 400;
 
     private final Random random;
     private final String title;
-    private final ImageYard x = new ImageYard();
+    private final Yards x = new Yards();
     private final Model model = new Model();
     private final Check check;
     private final List<String> told = new ArrayList<>();
@@ -20,6 +21,7 @@ public final class RandomRunsTest {
     private final boolean isGreedy;
     private final boolean likesKeys;
     private final boolean likesBytes;
+    private final boolean likesBlobs;
     private final boolean hasTwins;
     static final int[] FAULTS = new int[6];
     static int fullJournals;
@@ -35,6 +37,7 @@ public final class RandomRunsTest {
         isGreedy = seed % 4 != 0;
         likesKeys = seed % 4 == 2;
         likesBytes = seed % 4 == 3;
+        likesBlobs = seed % 8 == 5;
         hasTwins = seed % 8 < 2;
     }
 
@@ -61,12 +64,13 @@ public final class RandomRunsTest {
     }
 
     private void run() {
-        for (int i = 0; i < CALLS; i++) {
+        for (int i = 1; x.left() > MOST_SIGNS / 4 + 4; i++) {
             call();
-            if (i % 10 == 9) {
+            if (i % 20 == 0) {
                 compare();
             }
         }
+        compare();
         for (Model.Yard yard : model.yards) {
             fullJournals += yard.journal.length() > 39900 ? 1 : 0;
             fullYards += yard.blobs.size() == 60 ? 1 : 0;
@@ -140,8 +144,14 @@ public final class RandomRunsTest {
         }
     }
 
+    /** Signs that the file has already stay. */
     private void write(String text) {
-        Check.write(x, text);
+        int same = 0;
+        while (same < text.length() && same < model.text.length() && text.charAt(same) == model.text.charAt(same)) {
+            same++;
+        }
+        x.end(same);
+        Check.append(x, text.substring(same));
         model.text = text;
         told.add(text);
     }
@@ -245,26 +255,43 @@ public final class RandomRunsTest {
         int left = 40000 - model.yards[0].journal.length();
         if (likesBytes && left > 500 && random.nextInt(4) != 0) {
             StringBuilder out = new StringBuilder("FROM empty");
-            for (int i = 0; i < 5; i++) {
-                out.append("\nRUN put a ").append((word(9) + "x".repeat(60)).substring(0, 60 - random.nextInt(4)))
-                        .append(";join a a;join a a;join a a;join a a");
-            }
-            return out.toString();
+            out.append("\nRUN put a ").append((word(9) + "x".repeat(60)).substring(0, 60 - random.nextInt(4)))
+                    .append(";join a a;join a a;join a a;join a a");
+            return out.append(("\nRUN add a " + word(1)).repeat(random.nextInt(12))).toString();
         }
         if (likesKeys && random.nextInt(3) != 0) {
-            return "FROM empty\nRUN" + " ".repeat(1 + random.nextInt(90)) + "put a " + random.nextInt(2);
+            return "FROM empty\nENV a " + word(1) + "\nCOPY a".repeat(random.nextInt(13));
+        }
+        if (likesBlobs && random.nextInt(3) != 0) {
+            StringBuilder out = new StringBuilder("FROM empty");
+            for (int i = random.nextInt(13); i > 0; i--) {
+                out.append("\nCOPY a ").append((char) ('0' + random.nextInt(75)));
+            }
+            return out.toString();
         }
         if (hasTwins && random.nextInt(12) == 0) {
             return "FROM empty\nENV v " + CollisionTest.VALUE;
         }
         StringBuilder out = new StringBuilder();
+        if (random.nextInt(3) == 0 && !model.text.isEmpty()) {
+            String[] lines = model.text.split("\n", -1);
+            out.append(lines[0]);
+            for (int i = 1; i < lines.length - random.nextInt(3); i++) {
+                out.append('\n').append(lines[i]);
+            }
+            out.append('\n').append(line());
+            return out.length() > MOST_SIGNS ? out.substring(0, MOST_SIGNS) : out.toString();
+        }
         int from = random.nextInt(12);
+        if (random.nextInt(8) != 0 && !model.yards[0].tags.containsKey(from) && !model.yards[1].tags.containsKey(from)) {
+            from = 10;
+        }
         out.append(from < 8 && (isGreedy || from < 5) ? "FROM " + from : from == 11 && random.nextInt(8) == 0 ? "FROM 8" : "FROM empty");
         int count = random.nextInt(isGreedy ? 6 : 5);
         for (int i = 0; i < count; i++) {
             out.append('\n').append(line());
         }
-        return out.length() > 600 ? out.substring(0, 600) : out.toString();
+        return out.length() > MOST_SIGNS ? out.substring(0, MOST_SIGNS) : out.toString();
     }
 
     private void compare() {
@@ -299,15 +326,21 @@ public final class RandomRunsTest {
         same("keys", yard.keys.size(), x.yard(number, 1));
         same("journal", yard.journal.length(), x.yard(number, 2));
         same("synced", yard.synced, x.yard(number, 3));
-        for (int k = 0; k < yard.journal.length() && k < x.yard(number, 2); k++) {
-            if (yard.journal.charAt(k) != x.journal(number, k)) {
-                same("journal's byte " + k, yard.journal.charAt(k), x.journal(number, k));
+        int length = Math.min(yard.journal.length(), x.yard(number, 2));
+        for (int k = random.nextInt(8) == 0 ? 0 : Math.max(0, length - 50); k < length; k++) {
+            int got = x.journal(number, k);
+            if (yard.journal.charAt(k) != got) {
+                same("journal's byte " + k, yard.journal.charAt(k), got);
                 break;
             }
         }
-        yard.blobs.forEach((digest, bytes) -> same("blob", bytes.length(), x.blob(number, digest)));
-        yard.blobs.forEach((digest, bytes) -> check.holds(title + ": a blob's bytes",
-                new String(Check.blob(x, number, digest), java.nio.charset.StandardCharsets.ISO_8859_1).equals(bytes)));
+        yard.blobs.forEach((digest, bytes) -> {
+            same("blob", bytes.length(), x.blob(number, digest));
+            if (random.nextInt(60) == 0) {
+                check.holds(title + ": a blob's bytes",
+                        new String(Check.blob(x, number, digest), java.nio.charset.StandardCharsets.ISO_8859_1).equals(bytes));
+            }
+        });
         for (int tag = 0; tag < 8; tag++) {
             Long digest = yard.tags.get(tag);
             same("tag", digest == null ? 0 : digest, x.tag(number, tag));

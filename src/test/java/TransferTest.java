@@ -19,13 +19,13 @@ public final class TransferTest {
         check.end();
     }
 
-    private static ImageYard built(int yard) {
-        ImageYard x = new ImageYard();
+    private static Yards built(int yard) {
+        Yards x = new Yards();
         Check.build(x, yard, 3, TEXT);
         return x;
     }
 
-    private static void state(Check check, ImageYard x, int transfer, int message, int lost, int sent, int done) {
+    private static void state(Check check, Yards x, int transfer, int message, int lost, int sent, int done) {
         check.due("its message", x.transfer(transfer, 0), message);
         check.due("whether it was lost", x.transfer(transfer, 1), lost);
         check.due("how many it has sent", x.transfer(transfer, 2), sent);
@@ -33,7 +33,7 @@ public final class TransferTest {
     }
 
     private static void whole(Check check) {
-        ImageYard x = built(0);
+        Yards x = built(0);
         check.due("send", x.send(0, 3, 6), 0);
         state(check, x, 0, 1, 0, 0, 0);
         check.due("nothing came yet", x.yard(1, 2), 0);
@@ -60,7 +60,7 @@ public final class TransferTest {
     }
 
     private static void back(Check check) {
-        ImageYard x = built(1);
+        Yards x = built(1);
         Check.build(x, 0, 3, "FROM empty\nENV v w\nCOPY a 1");
         check.due("send", x.send(1, 3, 3), 0);
         check.due("the first layer is there", x.deliver(0), 2);
@@ -72,7 +72,7 @@ public final class TransferTest {
     }
 
     private static void known(Check check) {
-        ImageYard x = new ImageYard();
+        Yards x = new Yards();
         Check.build(x, 0, 0, "FROM empty\nENV a b");
         x.send(0, 0, 0);
         check.due("an image without layers", x.deliver(0), 4);
@@ -89,7 +89,7 @@ public final class TransferTest {
     }
 
     private static void numbers(Check check) {
-        ImageYard x = built(0);
+        Yards x = built(0);
         x.send(0, 3, 0);
         x.deliver(0);
         for (int i = 1; i < 4; i++) {
@@ -117,7 +117,7 @@ public final class TransferTest {
     }
 
     private static void lose(Check check) {
-        ImageYard x = built(0);
+        Yards x = built(0);
         check.refuses("lose of none", Check.STATE, () -> x.lose(0, true));
         check.refuses("lose of none", Check.STATE, () -> x.lose(0, false));
         x.send(0, 3, 0);
@@ -142,7 +142,7 @@ public final class TransferTest {
     }
 
     private static void arguments(Check check) {
-        ImageYard x = built(0);
+        Yards x = built(0);
         int[][] wrong = {{-1, 3, 0}, {2, 3, 0}, {0, -1, 0}, {0, 8, 0}, {0, 3, -1}, {0, 3, 8}, {0, 2, 8}};
         for (int[] three : wrong) {
             check.refuses("send", Check.ARGUMENT, () -> x.send(three[0], three[1], three[2]));
@@ -161,7 +161,7 @@ public final class TransferTest {
     }
 
     private static void giverWithoutBlob(Check check) {
-        ImageYard x = built(0);
+        Yards x = built(0);
         x.send(0, 3, 0);
         x.untag(0, 3);
         x.collect(0);
@@ -172,17 +172,9 @@ public final class TransferTest {
         check.due("nothing was kept", x.yard(1, 0), 0);
     }
 
-    /** Sixty blobs in yard 1, less some. */
-    private static void fillBlobs(ImageYard x, int less) {
-        for (int i = 0; x.yard(1, 0) < 60 - less; i++) {
-            boolean isOne = 60 - less - x.yard(1, 0) == 1;
-            Check.build(x, 1, 7, isOne ? "FROM empty\nENV z z" + i : "FROM empty\nCOPY z " + i);
-        }
-    }
-
     private static void takerWithoutRoom(Check check) {
-        ImageYard x = built(0);
-        fillBlobs(x, 1);
+        Yards x = built(0);
+        Fill.blobs(x, 1, 7, 59);
         x.send(0, 3, 0);
         check.due("WANT", x.deliver(0), 2);
         check.due("BLOB", x.deliver(0), 3);
@@ -195,8 +187,8 @@ public final class TransferTest {
     }
 
     private static void takerWithoutRoomForTheImage(Check check) {
-        ImageYard x = built(0);
-        fillBlobs(x, 2);
+        Yards x = built(0);
+        Fill.blobs(x, 1, 7, 58);
         x.send(0, 3, 0);
         for (int i = 0; i < 4; i++) {
             x.deliver(0);
@@ -205,8 +197,6 @@ public final class TransferTest {
         check.due("the layers stay", x.yard(1, 0), 60);
         check.due("the tag tells none", x.tag(1, 0), 0);
         state(check, x, 0, 0, 0, 2, 0);
-        Check.build(x, 0, 1, "FROM empty\nENV z z0");
-        fillBlobs(x, 0);
         x.send(1, 7, 6);
         while (x.deliver(0) != 0) {
             check.holds("it is open", x.transfer(0, 0) != 0);
@@ -219,8 +209,8 @@ public final class TransferTest {
         int layer = 6 + 6;
         int image = 6 + 11;
         for (int left = layer + image + 14; left <= layer + image + 15; left++) {
-            ImageYard x = new ImageYard();
-            BuildTest.fillJournal(x, left);
+            Yards x = new Yards();
+            Fill.journal(x, 0, left);
             Check.build(x, 1, 0, "FROM empty\nCOPY q 1");
             x.send(1, 0, 4);
             check.due("WANT", x.deliver(0), 2);
@@ -236,7 +226,7 @@ public final class TransferTest {
 
     /** Messages have their bytes with them. */
     private static void carried(Check check) {
-        ImageYard x = built(0);
+        Yards x = built(0);
         Check.build(x, 0, 4, "FROM empty\nCOPY z 9");
         x.send(0, 3, 0);
         x.send(0, 4, 1);
@@ -256,7 +246,7 @@ public final class TransferTest {
 
     private static void crash(Check check) {
         for (int yard = 0; yard < 2; yard++) {
-            ImageYard x = built(0);
+            Yards x = built(0);
             x.sync(0);
             x.send(0, 3, 0);
             x.send(0, 3, 1);
@@ -276,7 +266,7 @@ public final class TransferTest {
             check.due("send", x.send(0, 3, 0), 0);
             state(check, x, 0, 1, 0, 0, 0);
         }
-        ImageYard x = built(0);
+        Yards x = built(0);
         x.send(0, 3, 0);
         x.deliver(0);
         x.deliver(0);
