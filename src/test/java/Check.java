@@ -9,19 +9,26 @@ final class Check {
     static final Class<IllegalStateException> STATE = IllegalStateException.class;
     static final Class<UnsupportedOperationException> UNSUPPORTED = UnsupportedOperationException.class;
 
+    private static final int MOST_PRINTED = 40;
+
     private int wrong;
+
+    private void tell(String what) {
+        wrong++;
+        if (wrong <= MOST_PRINTED) {
+            System.out.println(what);
+        }
+    }
 
     void due(String call, long got, long due) {
         if (got != due) {
-            wrong++;
-            System.out.println(call + " answered " + got + ", due is " + due);
+            tell(call + " answered " + got + ", due is " + due);
         }
     }
 
     void holds(String what, boolean isSo) {
         if (!isSo) {
-            wrong++;
-            System.out.println("it isn't so: " + what);
+            tell("it isn't so: " + what);
         }
     }
 
@@ -33,8 +40,7 @@ final class Check {
             got = e.getClass().getName();
         }
         if (!got.equals(due.getName())) {
-            wrong++;
-            System.out.println(call + " threw " + got + ", due is " + due.getName());
+            tell(call + " threw " + got + ", due is " + due.getName());
         }
     }
 
@@ -73,6 +79,56 @@ final class Check {
         due("its fault's line of " + text, x.built(0), line);
         due("its steps of " + text, x.built(1), steps);
         due("its hits of " + text, x.built(2), hits);
+    }
+
+    /** A build in a new object, in the first yard: its fault's kind and line. */
+    void fault(String text, int kind, int line) {
+        Yards x = new Yards();
+        due("build of " + text, build(x, 0, 0, text), kind);
+        due("its fault's line of " + text, x.built(0), line);
+    }
+
+    /** All that can be asked of an object, as a text; of a long journal its ends. */
+    static String all(Yards x) {
+        StringBuilder out = new StringBuilder("file ").append(x.put(0)).append(" built");
+        for (int what = 0; what < 3; what++) {
+            out.append(' ').append(x.built(what));
+        }
+        for (int yard = 0; yard < 2; yard++) {
+            allOfYard(x, yard, out);
+        }
+        for (int transfer = 0; transfer < 4; transfer++) {
+            out.append("\ntransfer ").append(transfer).append(':');
+            for (int what = 0; what < 4; what++) {
+                out.append(' ').append(x.transfer(transfer, what));
+            }
+        }
+        return out.toString();
+    }
+
+    private static void allOfYard(Yards x, int yard, StringBuilder out) {
+        out.append("\nyard ").append(yard).append(':');
+        for (int what = 0; what < 4; what++) {
+            out.append(' ').append(x.yard(yard, what));
+        }
+        int size = x.yard(yard, 2);
+        out.append(" journal");
+        for (int k = 0; k < size; k++) {
+            if (k < 500 || k >= size - 500) {
+                out.append(' ').append(x.journal(yard, k));
+            }
+        }
+        for (int tag = 0; tag < 8; tag++) {
+            long digest = x.tag(yard, tag);
+            out.append("\ntag ").append(tag).append(": ").append(digest);
+            if (digest != 0) {
+                out.append(" layers");
+                for (int i = 0; i < x.image(yard, tag, 0); i++) {
+                    out.append(' ').append(x.layer(yard, tag, i)).append(' ').append(x.blob(yard, x.layer(yard, tag, i)));
+                }
+                out.append(" settings ").append(x.image(yard, tag, 1)).append(" tree ").append(tree(x, yard, tag));
+            }
+        }
     }
 
     /** A tag's tree, as path/ of a directory and path=bytes of a file, with blanks between them. */

@@ -14,6 +14,10 @@ public final class CollisionTest {
     static final String ONE = "AFHCy4dv17D";
     static final String OTHER = "M9ItB1BdRwF";
 
+    /** The layer of "rm d;put d;put t FILED", with a directory d, has the digest of that of "put t UNFILED". */
+    static final String FILED = "k5bKAaE8cFF";
+    static final String UNFILED = "p6ATaxCbkHK";
+
     public static void main(String[] args) {
         Check check = new Check();
         refused(check);

@@ -6,6 +6,7 @@ public final class FileTest {
         put(check);
         putWrong(check);
         end(check);
+        lastCall(check);
         check.end();
     }
 
@@ -84,5 +85,30 @@ public final class FileTest {
         check.due("FROM 0", x.build(0, 1), 0);
         x.end(0);
         check.due("put in an empty file", x.put(0), 0);
+    }
+
+    /** "An object is used for at most 512 calls after it has been made": the 512th is answered as all are. */
+    private static void lastCall(Check check) {
+        ImageYard x = new ImageYard();
+        byte[] text = "FROM empty\nCOPY a 1".getBytes(java.nio.charset.StandardCharsets.ISO_8859_1);
+        for (byte sign : text) {
+            x.put(sign);
+        }
+        int calls = text.length;
+        for (int tag = 0; calls < 508; calls += 2) {
+            x.build(calls % 4 / 2, tag);
+            x.untag(calls % 4 / 2, tag);
+            tag = (tag + 1) % 8;
+        }
+        while (calls < 511) {
+            x.build(0, 0);
+            calls++;
+        }
+        check.due("the 512th call", x.tag(0, 0), Model.digest("M\1" + Model.eight(Model.digest("\2\1a\1\0001")) + "\0"));
+        ImageYard y = new ImageYard();
+        for (calls = 0; calls < 511; calls++) {
+            y.sync(calls % 2);
+        }
+        check.due("the 512th call", y.put('a'), 1);
     }
 }

@@ -7,15 +7,20 @@ final class Fill {
 
     /** Makes a yard have a number of blobs, of at most 60; the tag tells the last image. */
     static void blobs(Yards x, int yard, int tag, int count) {
+        blobs(x, yard, tag, count, 'q');
+    }
+
+    /** The same with another name, for a yard that was filled before. */
+    static void blobs(Yards x, int yard, int tag, int count, char name) {
         int at = x.yard(yard, 0);
         while (at < count) {
             // Each build keeps a blob for each of its lines, and the image.
             int lines = Math.min(12, count - at - 1);
             StringBuilder text = new StringBuilder(START);
             for (int i = 0; i < lines; i++) {
-                text.append("COPY q ").append((char) ('0' + at + i)).append('\n');
+                text.append("COPY ").append(name).append(' ').append((char) ('0' + at + i)).append('\n');
             }
-            Check.build(x, yard, tag, lines > 0 ? text.toString() : START + "ENV q " + (char) ('0' + at));
+            Check.build(x, yard, tag, lines > 0 ? text.toString() : START + "ENV " + name + " " + (char) ('0' + at));
             at += lines + 1;
         }
     }
