@@ -11,12 +11,21 @@ import java.util.TreeSet;
 
 /** The face has what the document lists and nothing else, and the source keeps to LANGUAGE.md where a search can tell. */
 public final class FaceTest {
+    private static final String ARGUMENT = " IllegalArgumentException";
+    private static final String ELEMENT = " NoSuchElementException";
+    private static final String INDEX = " IndexOutOfBoundsException";
+    private static final String STATE = " IllegalStateException";
+    private static final String UNSUPPORTED = " UnsupportedOperationException";
+
     private static final String[] FACE = {
-        "int put(int)", "void end(int)", "int build(int,int)", "int built(int)", "long tag(int,int)",
-        "void retag(int,int,int)", "void untag(int,int)", "int image(int,int,int)", "long layer(int,int,int)",
-        "int entry(int,int,int,int,int)", "int blob(int,long)", "int byteOf(int,long,int)", "int yard(int,int)",
-        "int journal(int,int)", "void sync(int)", "int crash(int,int,int)", "int collect(int)",
-        "int send(int,int,int)", "int deliver(int)", "void lose(int,boolean)", "int transfer(int,int)",
+        "int put(int)" + ARGUMENT + UNSUPPORTED, "void end(int)" + ARGUMENT, "int build(int,int)" + ARGUMENT,
+        "int built(int)" + ARGUMENT, "long tag(int,int)" + ARGUMENT, "void retag(int,int,int)" + ARGUMENT + ELEMENT + UNSUPPORTED,
+        "void untag(int,int)" + ARGUMENT + ELEMENT + UNSUPPORTED, "int image(int,int,int)" + ARGUMENT + ELEMENT,
+        "long layer(int,int,int)" + ARGUMENT + ELEMENT + INDEX, "int entry(int,int,int,int,int)" + ARGUMENT + ELEMENT + INDEX,
+        "int blob(int,long)" + ARGUMENT, "int byteOf(int,long,int)" + ARGUMENT + ELEMENT + INDEX, "int yard(int,int)" + ARGUMENT,
+        "int journal(int,int)" + ARGUMENT + INDEX, "void sync(int)" + ARGUMENT, "int crash(int,int,int)" + ARGUMENT,
+        "int collect(int)" + ARGUMENT, "int send(int,int,int)" + ARGUMENT + ELEMENT + STATE, "int deliver(int)" + ARGUMENT + STATE,
+        "void lose(int,boolean)" + ARGUMENT + STATE, "int transfer(int,int)" + ARGUMENT,
     };
 
     private static final String[] NOT_IN_THE_SOURCE = {
@@ -55,7 +64,11 @@ public final class FaceTest {
         for (Class<?> type : method.getParameterTypes()) {
             out.append(out.charAt(out.length() - 1) == '(' ? "" : ",").append(type);
         }
-        return out.append(')').toString();
+        out.append(')');
+        for (Class<?> type : method.getExceptionTypes()) {
+            out.append(' ').append(type.getSimpleName());
+        }
+        return out.toString();
     }
 
     private static void members(Check check) {

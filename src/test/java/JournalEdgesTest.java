@@ -25,7 +25,9 @@ public final class JournalEdgesTest {
         collectNothing(check);
         collectByTags(check);
         collectKeys(check);
+        collectBlobsOfAllLengths(check);
         collectOffers(check);
+        collectTwoOffers(check);
         ends(check);
         check.end();
     }
@@ -385,6 +387,65 @@ public final class JournalEdgesTest {
         check.due("an image and a layer", x.collect(0), 2);
         check.due("and the key", x.yard(0, 1), 2);
         check.due("no hit", Check.build(x, 0, 2, START + "COPY a 2") + x.built(2), 0);
+    }
+
+    /** "the blobs in the order in which they came": what stays is as it was, wherever it stood. */
+    private static void collectBlobsOfAllLengths(Check check) {
+        for (int gone = 0; gone < 16; gone++) {
+            Yards x = new Yards();
+            String[] texts = {"", "ab", "c".repeat(40), "defg"};
+            for (int tag = 0; tag < 4; tag++) {
+                Check.build(x, 0, tag, START + "COPY a " + texts[tag]);
+            }
+            for (int tag = 0; tag < 4; tag++) {
+                if ((gone >> tag & 1) == 1) {
+                    x.untag(0, tag);
+                }
+            }
+            check.due("collect", x.collect(0), 2 * Integer.bitCount(gone));
+            StringBuilder due = new StringBuilder();
+            StringBuilder tags = new StringBuilder();
+            StringBuilder keys = new StringBuilder();
+            for (int tag = 0; tag < 4; tag++) {
+                if ((gone >> tag & 1) == 0) {
+                    String layer = "\2\1a" + (char) texts[tag].length() + "\0" + texts[tag];
+                    String image = "M\1" + Model.eight(Model.digest(layer)) + "\0";
+                    due.append(record(1, layer)).append(record(1, image));
+                    tags.append(record(2, (char) tag + Model.eight(Model.digest(image))));
+                    keys.append(record(4, Model.eight(Model.digest("M\0\0COPY a " + texts[tag])) + Model.eight(Model.digest(layer))));
+                    check.due("a layer's length", x.blob(0, Model.digest(layer)), layer.length());
+                    check.holds("its bytes", text(Check.blob(x, 0, Model.digest(layer))).equals(layer));
+                    check.tree(x, 0, tag, "a=" + texts[tag]);
+                }
+            }
+            check.holds("the journal", text(Check.journal(x, 0)).equals("" + due + tags + keys));
+        }
+    }
+
+    /** Offers of two transfers, beside an image that a tag tells. */
+    private static void collectTwoOffers(Check check) {
+        Yards x = new Yards();
+        Check.build(x, 0, 0, START + "COPY a 1\nCOPY b 2");
+        Check.build(x, 0, 1, START + "COPY c 3\nCOPY d 4");
+        Check.build(x, 1, 5, START + "COPY a 1");
+        Check.build(x, 1, 5, START + "COPY c 3");
+        Check.build(x, 1, 5, START + "COPY e 5");
+        Check.build(x, 1, 6, START + "COPY f 6");
+        x.send(0, 0, 0);
+        x.send(0, 1, 1);
+        x.send(1, 6, 1);
+        x.deliver(0);
+        x.deliver(1);
+        x.deliver(2);
+        x.untag(1, 6);
+        check.due("blobs", x.yard(1, 0), 8);
+        check.due("two images, and the image and the layer that are sent", x.collect(1), 4);
+        check.due("the first offer's layer", x.blob(1, Model.digest("\2\1a\1\0001")), 6);
+        check.due("the second offer's layer", x.blob(1, Model.digest("\2\1c\1\0003")), 6);
+        check.due("the layer of the tag's image", x.blob(1, Model.digest("\2\1e\1\0005")), 6);
+        check.due("one that is sent from here", x.blob(1, Model.digest("\2\1f\1\0006")), -1);
+        check.due("keys", x.yard(1, 1), 3);
+        check.tree(x, 1, 5, "e=5");
     }
 
     /** "the layers told by offers that open transfers to it have taken" */

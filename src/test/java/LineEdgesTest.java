@@ -11,6 +11,7 @@ public final class LineEdgesTest {
         emptyLines(check);
         from(check);
         fromTag(check);
+        fromSettings(check);
         env(check);
         envSigns(check);
         words(check);
@@ -139,6 +140,23 @@ public final class LineEdgesTest {
         check.due("other faults are later", Check.build(y, 0, 0, "FROM 7\nwrong"), 2);
         check.due("FROM 0 for the tag itself", Check.build(y, 0, 0, "FROM 0\nRUN rm a"), 0);
         check.tree(y, 0, 0, "b=w");
+    }
+
+    /** "with those of the tag's image": whatever other builds have set. */
+    private static void fromSettings(Check check) {
+        Yards x = new Yards();
+        Check.build(x, 0, 0, START + "ENV ab 1\nENV c 22");
+        Check.build(x, 0, 1, START + "ENV x 3\nENV yz 4\nENV z 5\nCOPY f $ab$c");
+        Check.build(x, 0, 2, START + "COPY f $ab$c$x$yz$z");
+        check.tree(x, 0, 2, "f=");
+        check.due("FROM 0", Check.build(x, 0, 2, "FROM 0\nCOPY f $ab.$c.$x.$yz.$z"), 0);
+        check.tree(x, 0, 2, "f=1.22...");
+        check.due("FROM 1", Check.build(x, 0, 2, "FROM 1\nENV a 6\nCOPY f $ab.$c.$x.$yz.$z.$a"), 0);
+        check.tree(x, 0, 2, "f=..3.4.5.6");
+        check.due("settings", x.image(0, 2, 1), 4);
+        check.due("FROM 0 again", Check.build(x, 0, 2, "FROM 0\nENV b 7"), 0);
+        String image = new String(Check.blob(x, 0, x.tag(0, 2)), java.nio.charset.StandardCharsets.ISO_8859_1);
+        check.holds("its settings", image.equals("M\0\3\2ab\0011\1b\0017\1c\00222"));
     }
 
     /** "a setting's name is one to eight small letters, its value one to twelve signs, no blank among them" */

@@ -212,9 +212,13 @@ public final class RandomRunsTest {
 
     /** Lines with layers and images of one digest. */
     private String twin() {
-        switch (random.nextInt(6)) {
+        switch (random.nextInt(8)) {
             case 0:
                 return "RUN rm d;put t " + CollisionTest.FIRST;
+            case 5:
+                return "RUN rm d;put d;put t " + CollisionTest.FILED;
+            case 6:
+                return "COPY t " + CollisionTest.UNFILED;
             case 3:
                 return "COPY t " + CollisionTest.ONE;
             case 4:

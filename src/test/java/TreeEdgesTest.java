@@ -26,6 +26,8 @@ public final class TreeEdgesTest {
         homeInB(check);
         sameBytes(check);
         lengthOfAFile(check);
+        greatestLayer(check);
+        manyCommands(check);
         notDoneItems(check);
         notDoneItemsOfAFile(check);
         eightyEntries(check);
@@ -272,6 +274,65 @@ public final class TreeEdgesTest {
             check.due("the higher byte of " + count, x.byteOf(0, layer, 4), count / 256);
             check.due("the bytes of " + count, x.entry(0, 0, 0, 0, 3), count);
         }
+    }
+
+    private static final String SIGNS = "0123456789abcdefghijklmnopqrstuvwxyz";
+
+    /** The longest paths, as many that go as that come, and a thousand bytes: all stand in one layer. */
+    private static void greatestLayer(Check check) {
+        Yards x = new Yards();
+        StringBuilder text = new StringBuilder(START + "ENV f a/b/c/ffffff\nRUN mkdir a;mkdir a/b;mkdir a/b/c");
+        for (int i = 0; i < 36; i++) {
+            text.append(i % 9 == 0 ? "\nRUN " : ";").append("put $f0").append(SIGNS.charAt(i));
+        }
+        check.due("36 files", Check.build(x, 0, 0, text.toString()), 0);
+        check.due("one of a thousand bytes", Check.build(x, 0, 0, "FROM 0\n" + bytes("x", 1000) + "RUN rm $f01;move x $f01;"
+                + "move a/b/c a/b/cccccccc;move a/b a/bbbbbbbb;move a aaaaaaaa"), 0);
+        String home = "aaaaaaaa/bbbbbbbb/";
+        String old = home + "cccccccc";
+        String now = home + "dddddddd";
+        check.due("all but one are moved", Check.build(x, 0, 0, "FROM 0\nRUN move " + old + " " + now + ";mkdir " + old + ";move "
+                + now + "/ffffff00 " + old + "/ffffff00"), 0);
+        check.due("entries", x.image(0, 0, 2), 40);
+        StringBuilder due = new StringBuilder();
+        for (int i = 1; i < 36; i++) {
+            due.append("\3\43").append(old).append("/ffffff0").append(SIGNS.charAt(i)).append("\0\0");
+        }
+        due.append("\1\32").append(now).append("\0\0");
+        for (int i = 1; i < 36; i++) {
+            due.append("\2\43").append(now).append("/ffffff0").append(SIGNS.charAt(i));
+            due.append(i == 1 ? "\350\3" + "x".repeat(1000) : "\0\0");
+        }
+        long layer = x.layer(0, 0, x.image(0, 0, 0) - 1);
+        check.due("its bytes", x.blob(0, layer), 70 * 39 + 30 + 1000);
+        check.due("its digest", layer, Model.digest(due.toString()));
+        transfer(check, x, 0, 0);
+        check.due("it came to the other yard", x.blob(1, layer), due.length());
+        check.due("the last byte of the file there", x.entry(1, 0, 5, 999, 1), 'x');
+        check.due("its bytes there", x.entry(1, 0, 5, 0, 3), 1000);
+        check.due("entries there", x.image(1, 0, 2), 40);
+    }
+
+    /** As many commands in a line as there can be, with a file of nearly a thousand bytes. */
+    private static void manyCommands(Check check) {
+        Yards x = new Yards();
+        Check.build(x, 0, 0, START + bytes("a", 1000));
+        check.due("32 commands that add nothing", Check.build(x, 0, 1, "FROM 0\nRUN add a" + ";add a".repeat(31)), 0);
+        check.due("the file", x.entry(0, 1, 0, 0, 3), 1000);
+        check.due("the layer has no items", x.blob(0, x.layer(0, 1, 1)), 0);
+        check.due("28 commands", Check.build(x, 0, 1, "FROM 0\nRUN put b;add b 1;rm b" + ";put b".repeat(25)), 4);
+        check.due("28 commands", Check.build(x, 0, 1, "FROM 0\nRUN mkdir b" + ";rm b;mkdir b".repeat(12)), 0);
+        Check.build(x, 0, 2, START + bytes("a", 976));
+        check.due("24 bytes more, one by one", Check.build(x, 0, 2, "FROM 2\nRUN add a z" + ";add a z".repeat(23)), 0);
+        check.due("the file", x.entry(0, 2, 0, 0, 3), 1000);
+        check.due("a byte of the old ones", x.entry(0, 2, 0, 975, 1), 'x');
+        check.due("a byte of the new ones", x.entry(0, 2, 0, 976, 1), 'z');
+        check.due("the last byte", x.entry(0, 2, 0, 999, 1), 'z');
+        Check.build(x, 0, 3, START + bytes("a", 977));
+        check.due("24 bytes more than there may be", Check.build(x, 0, 3, "FROM 3\nRUN add a z" + ";add a z".repeat(23)), 4);
+        Check.build(x, 0, 4, START + bytes("a", 500) + "RUN join a a");
+        check.due("joins of nothing", Check.build(x, 0, 4, "FROM 4\nRUN put b" + ";join a b".repeat(20)), 0);
+        check.due("the file", x.entry(0, 4, 0, 0, 3), 1000);
     }
 
     /** Sends an image from a yard to the other one, to the same tag. */
