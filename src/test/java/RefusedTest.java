@@ -32,9 +32,16 @@ public final class RefusedTest {
         allCalls(new RefusedTest(check, "a used object", used()), 1, 3, 0);
         RefusedTest used = new RefusedTest(check, "a used object", used());
         used.usedCalls();
-        new RefusedTest(check, "four transfers", fourTransfers()).transferCalls();
+        RefusedTest four = new RefusedTest(check, "four transfers", fourTransfers());
+        four.transferCalls();
+        four.noYards(1);
+        four.noTags(1);
+        new RefusedTest(check, "closed transfers", closedTransfers()).closedCalls();
         new RefusedTest(check, "a full file", fullFile()).fullFileCalls();
-        new RefusedTest(check, "a full journal", fullJournal(0)).fullJournalCalls();
+        RefusedTest full = new RefusedTest(check, "a full journal", fullJournal(0));
+        full.fullJournalCalls();
+        full.noYards(0);
+        full.noTags(0);
         new RefusedTest(check, "a journal with six bytes left", fullJournal(6)).fullJournalCalls();
         new RefusedTest(check, "a journal with 14 bytes left", fullJournal(14)).retagCalls();
         check.end();
@@ -62,6 +69,25 @@ public final class RefusedTest {
     private static Yards fourTransfers() {
         Yards x = used();
         x.send(1, 4, 7);
+        return x;
+    }
+
+    /** Transfer 0 ended with DONE, 1 because its giver hadn't the blob, 2 by a crash; 3 never began. */
+    private static Yards closedTransfers() {
+        Yards x = new Yards();
+        Check.build(x, 0, 1, "FROM empty\nCOPY a 1");
+        Check.build(x, 0, 2, "FROM empty\nCOPY b 2");
+        x.send(0, 1, 5);
+        x.send(0, 2, 6);
+        x.send(0, 1, 7);
+        for (int i = 0; i < 4; i++) {
+            x.deliver(0);
+        }
+        x.untag(0, 2);
+        x.collect(0);
+        x.deliver(1);
+        x.deliver(1);
+        x.crash(0, 0, -1);
         return x;
     }
 
@@ -305,10 +331,27 @@ public final class RefusedTest {
         for (int i = 0; i < 4; i++) {
             int transfer = i;
             check.refuses("deliver of none", Check.STATE, () -> none.deliver(transfer));
-            check.refuses("lose of none", Check.STATE, () -> none.lose(transfer, true));
             check.refuses("lose of none", Check.STATE, () -> none.lose(transfer, false));
+            check.refuses("lose of none", Check.STATE, () -> none.lose(transfer, true));
         }
         check.holds("a new object is as it was", Check.all(none).equals(Check.all(new Yards())));
+    }
+
+    private void closedCalls() {
+        check.due("the first one ended with DONE", state.transfer(0, 3), 1);
+        for (int i = 0; i < 4; i++) {
+            int transfer = i;
+            check.due("it isn't open", state.transfer(i, 0), 0);
+            start();
+            refuse("deliver", Check.STATE, x -> x.deliver(transfer));
+            unchanged("deliveries of a closed transfer");
+            start();
+            refuse("lose true", Check.STATE, x -> x.lose(transfer, true));
+            unchanged("losses of a closed transfer");
+            start();
+            refuse("lose false", Check.STATE, x -> x.lose(transfer, false));
+            unchanged("finds of a closed transfer");
+        }
     }
 
     private void fullFileCalls() {
