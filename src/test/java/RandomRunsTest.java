@@ -7,6 +7,7 @@ import java.util.function.LongSupplier;
 /** Random runs of calls, asked of the class and of the model; the seeds are fixed. */
 public final class RandomRunsTest {
     private static final String[] NAMES = {"a", "b", "c", "d", "a0", "ab", "e", "zz"};
+    private static final String MARKS = "  ;;//$$\n\n09azAZ~!:`{-.";
     private static final int RUNS = 400;
     /** A file has fewer signs than the document allows, so that a run has calls left for more than two builds. */
     private static final int MOST_SIGNS = 400;
@@ -23,6 +24,7 @@ public final class RandomRunsTest {
     private final boolean likesBytes;
     private final boolean likesBlobs;
     private final boolean hasTwins;
+    private final boolean hasTypos;
     static final int[] FAULTS = new int[6];
     static int fullJournals;
     static int fullYards;
@@ -39,6 +41,7 @@ public final class RandomRunsTest {
         likesBytes = seed % 4 == 3;
         likesBlobs = seed % 8 == 5;
         hasTwins = seed % 8 < 2;
+        hasTypos = seed % 3 == 0;
     }
 
     public static void main(String[] args) {
@@ -89,7 +92,7 @@ public final class RandomRunsTest {
         int what = random.nextInt(100);
         int transfer = random.nextInt(4);
         if (what < 40) {
-            write(file());
+            write(hasTypos && random.nextInt(2) == 0 ? typo(file()) : file());
             ask("build", here, tag, 0, () -> x.build(here, tag), () -> counted(model.build(here, tag)));
         } else if (what < 45) {
             ask("retag", here, tag, other, () -> none(() -> x.retag(here, tag, other)),
@@ -142,6 +145,34 @@ public final class RandomRunsTest {
         } catch (RuntimeException e) {
             return e.getClass().getName();
         }
+    }
+
+    /** Signs that are left out, put in, changed or doubled: mostly those that part words, lines, names and commands. */
+    private String typo(String text) {
+        StringBuilder out = new StringBuilder(text);
+        for (int i = random.nextInt(4); i >= 0; i--) {
+            int at = random.nextInt(out.length() + 1);
+            if (random.nextInt(3) != 0) {
+                at = nextMark(out, at);
+            }
+            int kind = random.nextInt(4);
+            if (kind < 2 && at < out.length()) {
+                out.deleteCharAt(at);
+            }
+            if (kind > 0) {
+                out.insert(at, kind == 3 && at < out.length() ? out.charAt(at) : MARKS.charAt(random.nextInt(MARKS.length())));
+            }
+        }
+        return out.length() > MOST_SIGNS ? out.substring(0, MOST_SIGNS) : out.toString();
+    }
+
+    private static int nextMark(CharSequence text, int from) {
+        for (int at = from; at < text.length(); at++) {
+            if (" ;/$\n".indexOf(text.charAt(at)) >= 0) {
+                return at;
+            }
+        }
+        return text.length();
     }
 
     /** Signs that the file has already stay. */
